@@ -18,13 +18,13 @@ public final class SinglesPast {
     private static final int DAY_MOST = 9999;
     private static final int DAYS_MOST = 60;
     private static final int ODDS_DAYS_MOST = 4;
+    private static final int COST_FIRST = 10;
     private static final int TOLD_BYTES_MOST = 40;
     private static final int PICK_MOST = 10;
     private static final int SPAN_SEEDS = 6;
     private static final int NO_ROW = -2;
 
-    private final int[] tape = new int[TAPE_MOST];
-    private int tapeLength;
+    private final Tape tape;
     private int wrongAt;
     private final State state;
     private final State image;
@@ -32,7 +32,6 @@ public final class SinglesPast {
     // What may be tried and thrown away: texts that may be wrong, days that do not stay.
     private final State draft;
     private final Memory memory;
-    private final Reader reader;
     private final LawText lawText;
     private final Worlds worlds;
     private boolean worldsFresh;
@@ -43,12 +42,12 @@ public final class SinglesPast {
     private int toldNot;
 
     public SinglesPast() {
+        tape = new Tape();
         wrongAt = NONE;
         state = new State();
         image = new State();
         draft = new State();
         memory = new Memory();
-        reader = new Reader(tape);
         lawText = new LawText();
         worlds = new Worlds();
         otherWorlds = new Worlds();
@@ -59,39 +58,29 @@ public final class SinglesPast {
     // ---- the tape and the texts ----
 
     public int feed(int a, int b, int c, int d, int e) {
-        if (tapeLength + 20 > TAPE_MOST) {
+        if (tape.length + 20 > TAPE_MOST) {
             return NONE;
         }
-        putBytes(a);
-        putBytes(b);
-        putBytes(c);
-        putBytes(d);
-        putBytes(e);
-        return tapeLength;
-    }
-
-    private void putBytes(int number) {
-        for (int shift = 24; shift >= 0; shift -= 8) {
-            if (tapeLength < tape.length) {
-                tape[tapeLength] = number >>> shift & 255;
-                tapeLength++;
-            }
-        }
+        tape.append(a);
+        tape.append(b);
+        tape.append(c);
+        tape.append(d);
+        tape.append(e);
+        return tape.length;
     }
 
     public boolean end(int n) {
-        if (n < 0 || n > tapeLength) {
+        if (n < 0 || n > tape.length) {
             return false;
         }
-        tapeLength = n;
+        tape.length = n;
         return true;
     }
 
     public int station() throws IllegalArgumentException, UnsupportedOperationException {
         draft.copyFrom(state);
-        openTape();
-        boolean right = StationText.read(reader, draft);
-        closeText(right);
+        tape.open();
+        closeText(StationText.read(tape, draft));
         if (state.texts >= TEXTS_MOST) {
             throw new UnsupportedOperationException("there are 12 texts");
         }
@@ -102,21 +91,15 @@ public final class SinglesPast {
     }
 
     public int law() throws IllegalArgumentException {
-        openTape();
-        boolean right = lawText.read(reader);
-        closeText(right);
+        tape.open();
+        closeText(lawText.read(tape));
         state.law = lawText.toLaw();
         forgetActs();
         return state.law.lines;
     }
 
-    private void openTape() {
-        reader.start(tapeLength);
-        tapeLength = 0;
-    }
-
     private void closeText(boolean right) {
-        wrongAt = right ? NONE : reader.place;
+        wrongAt = right ? NONE : tape.place;
         if (!right) {
             throw new IllegalArgumentException("the text is wrong");
         }
@@ -458,14 +441,14 @@ public final class SinglesPast {
     }
 
     private void readTold() {
-        int length = tapeLength;
-        tapeLength = 0;
+        int length = tape.length;
+        tape.length = 0;
         toldSo = 0;
         toldNot = 0;
         boolean right = length <= TOLD_BYTES_MOST && length % 2 == 0;
         for (int i = 0; right && i + 1 < length; i += 2) {
-            int thing = tape[i];
-            int is = tape[i + 1];
+            int thing = tape.bytes[i];
+            int is = tape.bytes[i + 1];
             right = thing < state.things.count && is <= 1;
             if (is == 1) {
                 toldSo |= 1 << thing;
@@ -797,7 +780,9 @@ public final class SinglesPast {
 
     public int trial(int n, boolean agree) throws IllegalArgumentException {
         needTrialDays(n);
-        int gone = goneAfter(n, state.seed);
+        draft.copyFrom(state);
+        draft.passDays(n, true);
+        int gone = draft.goneSet();
         // Days change neither WISHES nor DEEDS, so the WORLDS of now are those of then.
         return agree ? freshWorlds().countAgreeing(gone) : gone;
     }
@@ -807,18 +792,14 @@ public final class SinglesPast {
         int least = GOERS_MOST;
         int greatest = 0;
         for (int seed = 1; seed <= SPAN_SEEDS; seed++) {
-            int many = Integer.bitCount(goneAfter(n, seed));
+            draft.copyFrom(state);
+            draft.seed = seed;
+            draft.passDays(n, true);
+            int many = Integer.bitCount(draft.goneSet());
             least = Math.min(least, many);
             greatest = Math.max(greatest, many);
         }
         return most ? greatest : least;
-    }
-
-    private int goneAfter(int days, int seed) {
-        draft.copyFrom(state);
-        draft.seed = seed;
-        draft.passDays(days, true);
-        return draft.goneSet();
     }
 
     // ---- the log, what is kept ----
@@ -1176,10 +1157,6 @@ public final class SinglesPast {
             return set;
         }
 
-        boolean isFull(int train) {
-            return Integer.bitCount(ridersOf(train)) >= seats[train];
-        }
-
         int everyHalt() {
             int set = 0;
             for (int train = 0; train < trains; train++) {
@@ -1212,23 +1189,34 @@ public final class SinglesPast {
         }
 
         int costOf(int goer, int train) {
-            return law == null ? 10 : 10 + law.sumOf(Law.COST, this, goer, train);
+            if (law == null) {
+                return COST_FIRST;
+            }
+            law.lookAt(this, goer, train);
+            return COST_FIRST + law.sumOf(Law.COST);
         }
 
         int fearOf(int goer, int train) {
-            return law == null ? 0 : law.sumOf(Law.FEAR, this, goer, train);
-        }
-
-        boolean isBarred(int goer, int train) {
-            return law != null && law.sumOf(Law.BAR, this, goer, train) > 0;
+            if (law == null) {
+                return 0;
+            }
+            law.lookAt(this, goer, train);
+            return law.sumOf(Law.FEAR);
         }
 
         boolean canGo(int goer, int train) {
-            if (by[goer] != NONE || !stopsForHim(goer, train) || isFull(train)) {
+            if (by[goer] != NONE || !stopsForHim(goer, train)) {
                 return false;
             }
-            boolean meets = (ridersOf(train) & shuns[goer]) != 0;
-            return !meets && !isBarred(goer, train) && costOf(goer, train) <= money[goer];
+            int riders = ridersOf(train);
+            if (Integer.bitCount(riders) >= seats[train] || (riders & shuns[goer]) != 0) {
+                return false;
+            }
+            if (law == null) {
+                return COST_FIRST <= money[goer];
+            }
+            law.lookAt(this, goer, train);
+            return law.sumOf(Law.BAR) == 0 && COST_FIRST + law.sumOf(Law.COST) <= money[goer];
         }
 
         int trainOf(int goer) {
@@ -1261,8 +1249,12 @@ public final class SinglesPast {
             int went = 0;
             for (int i = 0; i < many; i++) {
                 for (int goer = 0; goer < goers; goer++) {
-                    if (by[goer] == NONE && makesUpHisMind(goer, draws)) {
-                        went++;
+                    if (by[goer] == NONE) {
+                        int train = draws ? drawnTrainOf(goer) : trainOf(goer);
+                        if (train != NONE) {
+                            board(goer, train);
+                            went++;
+                        }
                     }
                 }
                 day = Math.min(DAY_MOST, day + 1);
@@ -1270,18 +1262,15 @@ public final class SinglesPast {
             return went;
         }
 
-        private boolean makesUpHisMind(int goer, boolean draws) {
-            int drawn = draws ? draw() % 100 : 0;
-            // FEAR is never below 0: whom NERVE alone does not bring on need not be looked at further.
-            if (draws && drawn >= nerve[goer]) {
-                return false;
+        /** The TRAIN by which he makes up his mind to go; NONE if he stays. */
+        private int drawnTrainOf(int goer) {
+            int drawn = draw() % 100;
+            // FEAR is never below 0: if NERVE alone is not enough, no TRAIN need be looked for.
+            if (drawn >= nerve[goer]) {
+                return NONE;
             }
             int train = trainOf(goer);
-            if (train == NONE || draws && drawn >= nerve[goer] - fearOf(goer, train)) {
-                return false;
-            }
-            board(goer, train);
-            return true;
+            return train != NONE && drawn < nerve[goer] - fearOf(goer, train) ? train : NONE;
         }
 
         private int draw() {
@@ -1331,7 +1320,7 @@ public final class SinglesPast {
         static final int FEAR = 1;
         static final int BAR = 2;
 
-        // Signs below these are numbers.
+        // Signs below these are numbers; these name facts of a GOER and a TRAIN, in the order of their words.
         static final int GOER = 1000;
         static final int WISH = 1001;
         static final int MONEY = 1002;
@@ -1350,14 +1339,15 @@ public final class SinglesPast {
         static final int AND = 1014;
         static final int OR = 1015;
 
-        // 7 levels, on each an or, an and and the three of a comparison at most.
-        private static final int STACK_MOST = 40;
+        // On each of 7 levels an or and an and may wait, at the innermost three parts of a comparison.
+        private static final int STACK_MOST = 32;
 
         final int lines;
         private final int[] kinds;
         private final int[] amounts;
         private final int[] ends;
         private final int[] code;
+        private final int[] facts = new int[PLUS - GOER];
         private final int[] stack = new int[STACK_MOST];
 
         Law(int lines, int[] kinds, int[] amounts, int[] ends, int[] code) {
@@ -1368,11 +1358,26 @@ public final class SinglesPast {
             this.code = code;
         }
 
-        int sumOf(int kind, State state, int goer, int train) {
+        /** Must come ahead of sumOf: all LINES are then about these two. */
+        void lookAt(State state, int goer, int train) {
+            int riders = Integer.bitCount(state.ridersOf(train));
+            facts[GOER - GOER] = goer;
+            facts[WISH - GOER] = state.wish[goer];
+            facts[MONEY - GOER] = state.money[goer];
+            facts[NERVE - GOER] = state.nerve[goer];
+            facts[TRAIN - GOER] = train;
+            facts[GONE - GOER] = riders;
+            facts[DAY - GOER] = state.day % 100;
+            facts[BORN - GOER] = state.born[goer] != NONE ? 1 : 0;
+            facts[DOES - GOER] = state.deed[goer] != NONE ? 1 : 0;
+            facts[FULL - GOER] = riders >= state.seats[train] ? 1 : 0;
+        }
+
+        int sumOf(int kind) {
             int sum = 0;
             int from = 0;
             for (int line = 0; line < lines; line++) {
-                if (kinds[line] == kind && holds(from, ends[line], state, goer, train)) {
+                if (kinds[line] == kind && holds(from, ends[line])) {
                     sum += amounts[line];
                 }
                 from = ends[line];
@@ -1380,105 +1385,83 @@ public final class SinglesPast {
             return sum;
         }
 
-        private boolean holds(int from, int to, State state, int goer, int train) {
-            int top = 0;
+        /** A LINE without a condition has no signs, and holds. */
+        private boolean holds(int from, int to) {
+            int top = NONE;
             for (int i = from; i < to; i++) {
                 int sign = code[i];
-                if (sign >= PLUS) {
-                    top = join(sign, top);
-                } else if (top < STACK_MOST) {
-                    stack[top] = sign < GOER ? sign : valueOf(sign, state, goer, train);
-                    top++;
+                if (sign < PLUS) {
+                    if (top + 1 < STACK_MOST) {
+                        top++;
+                        stack[top] = sign < GOER ? sign : facts[sign - GOER];
+                    }
+                } else if (sign == NOT) {
+                    if (top >= 0) {
+                        stack[top] = 1 - stack[top];
+                    }
+                } else if (top >= 1) {
+                    int right = stack[top];
+                    top--;
+                    int left = stack[top];
+                    switch (sign) {
+                        case PLUS:
+                            stack[top] = left + right;
+                            break;
+                        case LESS:
+                            stack[top] = left < right ? 1 : 0;
+                            break;
+                        case MORE:
+                            stack[top] = left > right ? 1 : 0;
+                            break;
+                        case AND:
+                            stack[top] = left & right;
+                            break;
+                        default:
+                            stack[top] = left | right;
+                            break;
+                    }
                 }
             }
-            return top == 0 || stack[0] != 0;
-        }
-
-        private static int valueOf(int sign, State state, int goer, int train) {
-            switch (sign) {
-                case GOER:
-                    return goer;
-                case WISH:
-                    return state.wish[goer];
-                case MONEY:
-                    return state.money[goer];
-                case NERVE:
-                    return state.nerve[goer];
-                case TRAIN:
-                    return train;
-                case GONE:
-                    return Integer.bitCount(state.ridersOf(train));
-                case DAY:
-                    return state.day % 100;
-                case BORN:
-                    return state.born[goer] != NONE ? 1 : 0;
-                case DOES:
-                    return state.deed[goer] != NONE ? 1 : 0;
-                default:
-                    return state.isFull(train) ? 1 : 0;
-            }
-        }
-
-        private int join(int sign, int top) {
-            if (sign == NOT) {
-                if (top >= 1) {
-                    stack[top - 1] = 1 - stack[top - 1];
-                }
-                return top;
-            }
-            if (top < 2) {
-                return top;
-            }
-            stack[top - 2] = joined(sign, stack[top - 2], stack[top - 1]);
-            return top - 1;
-        }
-
-        private static int joined(int sign, int left, int right) {
-            switch (sign) {
-                case PLUS:
-                    return left + right;
-                case LESS:
-                    return left < right ? 1 : 0;
-                case MORE:
-                    return left > right ? 1 : 0;
-                case AND:
-                    return left & right;
-                default:
-                    return left | right;
-            }
+            return top < 0 || stack[top] != 0;
         }
     }
 
-    /** Goes along a text; whatever is refused leaves place at its begin, the first wrong byte. */
-    private static final class Reader {
+    /** The bytes that were fed, and the reading of them: whatever is refused leaves place at its begin. */
+    private static final class Tape {
         private static final int DIGITS_MOST = 3;
 
-        private final int[] text;
-        private int length;
+        final int[] bytes = new int[TAPE_MOST];
+        int length;
         int place;
-        private int begin;
         int number;
+        private int textLength;
+        private int begin;
 
-        Reader(int[] text) {
-            this.text = text;
+        void append(int four) {
+            for (int shift = 24; shift >= 0 && length < TAPE_MOST; shift -= 8) {
+                bytes[length] = four >>> shift & 255;
+                length++;
+            }
         }
 
-        void start(int textLength) {
-            length = Math.min(textLength, text.length);
-            place = 0;
-            begin = 0;
+        /** The TAPE is used up; its bytes can be read till more are fed. */
+        void open() {
+            textLength = Math.min(length, TAPE_MOST);
+            length = 0;
+            moveTo(0);
         }
 
         boolean isOver() {
-            skipBlanks();
-            return place >= length;
+            return place >= textLength;
         }
 
-        private void skipBlanks() {
-            while (place < length && text[place] == ' ') {
+        /** What stands ahead of it is taken, and the blanks behind: place is at the next one's begin. */
+        private void moveTo(int behind) {
+            begin = place;
+            place = behind;
+            while (place < textLength && bytes[place] == ' ') {
                 place++;
             }
-            begin = place;
         }
 
         /** Puts back what was taken last: it cannot stand there after all. */
@@ -1488,67 +1471,81 @@ public final class SinglesPast {
         }
 
         boolean takeSign(char sign) {
-            skipBlanks();
-            if (place >= length || text[place] != sign) {
+            if (place >= textLength || bytes[place] != sign) {
                 return false;
             }
-            place++;
+            moveTo(place + 1);
             return true;
         }
 
         boolean takeWord(String word) {
-            skipBlanks();
-            int end = wordEnd();
-            if (end - place != word.length()) {
+            if (!isNext(word, 0, word.length())) {
                 return false;
             }
-            for (int i = 0; i < word.length(); i++) {
-                if (text[place + i] != word.charAt(i)) {
-                    return false;
-                }
-            }
-            place = end;
+            moveTo(place + word.length());
             return true;
         }
 
-        private int wordEnd() {
-            int end = place;
-            while (end < length && text[end] >= 'a' && text[end] <= 'z') {
-                end++;
+        /** Which of these words, told with blanks between them, comes next and is taken; NONE. */
+        int takeOneOf(String words) {
+            int which = 0;
+            int from = 0;
+            for (int i = 0; i <= words.length(); i++) {
+                if (i == words.length() || words.charAt(i) == ' ') {
+                    if (isNext(words, from, i)) {
+                        moveTo(place + i - from);
+                        return which;
+                    }
+                    which++;
+                    from = i + 1;
+                }
             }
-            return end;
+            return NONE;
+        }
+
+        private boolean isNext(String words, int from, int to) {
+            int behind = place + to - from;
+            if (behind > textLength) {
+                return false;
+            }
+            for (int i = from; i < to; i++) {
+                if (bytes[place + i - from] != words.charAt(i)) {
+                    return false;
+                }
+            }
+            boolean goesOn = behind < textLength && bytes[behind] >= 'a' && bytes[behind] <= 'z';
+            return !goesOn;
         }
 
         boolean takeNumber(int least, int most) {
-            skipBlanks();
-            int end = place;
+            int behind = place;
             int value = 0;
-            while (end < length && end - place <= DIGITS_MOST && text[end] >= '0' && text[end] <= '9') {
-                value = 10 * value + text[end] - '0';
-                end++;
+            while (behind < textLength && behind - place <= DIGITS_MOST && bytes[behind] >= '0' && bytes[behind] <= '9') {
+                value = 10 * value + bytes[behind] - '0';
+                behind++;
             }
-            int digits = end - place;
+            int digits = behind - place;
             if (digits == 0 || digits > DIGITS_MOST || value < least || value > most) {
                 return false;
             }
             number = value;
-            place = end;
+            moveTo(behind);
             return true;
         }
 
         /** Letters for STOPS, as bits; 0 if they are none such. */
         int takeStopLetters() {
-            skipBlanks();
-            int end = wordEnd();
             int set = 0;
-            for (int i = place; i < end; i++) {
-                int stop = text[i] - 'a';
+            int behind = place;
+            while (behind < textLength && bytes[behind] >= 'a' && bytes[behind] <= 'z') {
+                int stop = bytes[behind] - 'a';
                 if (stop >= STOP_COUNT || (set >> stop & 1) != 0) {
                     return 0;
                 }
                 set |= 1 << stop;
+                behind++;
             }
-            place = end;
+            moveTo(behind);
             return set;
         }
     }
@@ -1563,7 +1560,7 @@ public final class SinglesPast {
         private StationText() {
         }
 
-        static boolean read(Reader text, State state) {
+        static boolean read(Tape text, State state) {
             if (text.isOver()) {
                 return true;
             }
@@ -1571,41 +1568,36 @@ public final class SinglesPast {
                 if (!readLine(text, state)) {
                     return false;
                 }
-                if (text.isOver()) {
-                    return true;
-                }
                 if (!text.takeSign(';')) {
-                    return false;
+                    return text.isOver();
                 }
             }
-            // A LINE too many is wrong at its first word: there the blanks end.
-            text.isOver();
+            // One LINE too many: wrong at its first word, where the text stands now.
             return false;
         }
 
-        private static boolean readLine(Reader text, State state) {
-            if (text.takeWord("thing")) {
-                return state.things.count < THINGS_MOST ? readThing(text, state.things) : text.refuse();
+        private static boolean readLine(Tape text, State state) {
+            switch (text.takeOneOf("thing makes hinders goer shuns train day")) {
+                case 0:
+                    return state.things.count < THINGS_MOST ? readThing(text, state.things) : text.refuse();
+                case 1:
+                    return readTie(text, state.things, true);
+                case 2:
+                    return readTie(text, state.things, false);
+                case 3:
+                    return state.goers < GOERS_MOST ? readGoer(text, state) : text.refuse();
+                case 4:
+                    return readShunning(text, state);
+                case 5:
+                    return state.trains < TRAINS_MOST ? readTrain(text, state) : text.refuse();
+                case 6:
+                    return readDay(text, state);
+                default:
+                    return false;
             }
-            if (text.takeWord("makes")) {
-                return readTie(text, state.things, true);
-            }
-            if (text.takeWord("hinders")) {
-                return readTie(text, state.things, false);
-            }
-            if (text.takeWord("goer")) {
-                return state.goers < GOERS_MOST ? readGoer(text, state) : text.refuse();
-            }
-            if (text.takeWord("shuns")) {
-                return readShunning(text, state);
-            }
-            if (text.takeWord("train")) {
-                return state.trains < TRAINS_MOST ? readTrain(text, state) : text.refuse();
-            }
-            return text.takeWord("day") && readDay(text, state);
         }
 
-        private static boolean readThing(Reader text, Things things) {
+        private static boolean readThing(Tape text, Things things) {
             if (!text.takeWord("at") || !text.takeNumber(0, STOP_COUNT - 1)) {
                 return false;
             }
@@ -1622,7 +1614,7 @@ public final class SinglesPast {
             return true;
         }
 
-        private static boolean readTie(Reader text, Things things, boolean making) {
+        private static boolean readTie(Tape text, Things things, boolean making) {
             if (!text.takeNumber(0, things.count - 1)) {
                 return false;
             }
@@ -1638,7 +1630,7 @@ public final class SinglesPast {
             return true;
         }
 
-        private static boolean readGoer(Reader text, State state) {
+        private static boolean readGoer(Tape text, State state) {
             if (!text.takeWord("to") || !text.takeNumber(0, STOP_COUNT - 1)) {
                 return false;
             }
@@ -1656,7 +1648,7 @@ public final class SinglesPast {
             return readDeed(text, state, goer) && readBirth(text, state, goer);
         }
 
-        private static boolean readDeed(Reader text, State state, int goer) {
+        private static boolean readDeed(Tape text, State state, int goer) {
             boolean does = text.takeWord("does");
             if (!does && !text.takeWord("undoes")) {
                 return true;
@@ -1668,7 +1660,7 @@ public final class SinglesPast {
             return true;
         }
 
-        private static boolean readBirth(Reader text, State state, int goer) {
+        private static boolean readBirth(Tape text, State state, int goer) {
             if (!text.takeWord("born")) {
                 return true;
             }
@@ -1679,7 +1671,7 @@ public final class SinglesPast {
             return true;
         }
 
-        private static boolean readShunning(Reader text, State state) {
+        private static boolean readShunning(Tape text, State state) {
             if (!text.takeNumber(0, state.goers - 1)) {
                 return false;
             }
@@ -1694,7 +1686,7 @@ public final class SinglesPast {
             return true;
         }
 
-        private static boolean readTrain(Reader text, State state) {
+        private static boolean readTrain(Tape text, State state) {
             if (!text.takeWord("seats") || !text.takeNumber(1, SEATS_MOST) || !text.takeWord("stops")) {
                 return false;
             }
@@ -1707,7 +1699,7 @@ public final class SinglesPast {
             return true;
         }
 
-        private static boolean readDay(Reader text, State state) {
+        private static boolean readDay(Tape text, State state) {
             if (!text.takeNumber(0, TOLD_DAY_MOST)) {
                 return false;
             }
@@ -1736,61 +1728,45 @@ public final class SinglesPast {
                     Arrays.copyOf(ends, lines), Arrays.copyOf(code, signs));
         }
 
-        boolean read(Reader text) {
+        boolean read(Tape text) {
             lines = 0;
             signs = 0;
             if (text.isOver()) {
                 return true;
             }
             for (int line = 0; line < LINES_MOST; line++) {
-                if (!readLine(text)) {
+                if (!readLine(text, line)) {
                     return false;
                 }
-                if (text.isOver()) {
-                    return true;
-                }
+                lines = line + 1;
                 if (!text.takeSign(';')) {
-                    return false;
+                    return text.isOver();
                 }
             }
-            // A LINE too many is wrong at its first word: there the blanks end.
-            text.isOver();
+            // One LINE too many: wrong at its first word, where the text stands now.
             return false;
         }
 
-        private boolean readLine(Reader text) {
-            int kind = takeKind(text);
+        private boolean readLine(Tape text, int line) {
+            // The kinds' numbers are in this order.
+            int kind = text.takeOneOf("cost fear bar");
             if (kind == NONE) {
                 return false;
             }
-            // So that the sum of all bar LINES that hold tells whether there is one.
-            int amount = 1;
+            kinds[line] = kind;
+            // A bar counts as 1, so that the sum of those that hold tells whether there is one.
+            amounts[line] = 1;
             if (kind != Law.BAR) {
                 if (!text.takeNumber(0, AMOUNT_MOST)) {
                     return false;
                 }
-                amount = text.number;
+                amounts[line] = text.number;
             }
             if (text.takeWord("if") && !readCondition(text, 0)) {
                 return false;
             }
-            if (lines < LINES_MOST) {
-                kinds[lines] = kind;
-                amounts[lines] = amount;
-                ends[lines] = signs;
-                lines++;
-            }
+            ends[line] = signs;
             return true;
-        }
-
-        private static int takeKind(Reader text) {
-            if (text.takeWord("cost")) {
-                return Law.COST;
-            }
-            if (text.takeWord("fear")) {
-                return Law.FEAR;
-            }
-            return text.takeWord("bar") ? Law.BAR : NONE;
         }
 
         private void put(int sign) {
@@ -1800,33 +1776,32 @@ public final class SinglesPast {
             }
         }
 
-        private boolean readCondition(Reader text, int depth) {
-            if (!readAll(text, depth)) {
-                return false;
-            }
-            for (int i = 0; i < TAPE_MOST && text.takeWord("or"); i++) {
-                if (!readAll(text, depth)) {
-                    return false;
-                }
-                put(Law.OR);
-            }
-            return true;
-        }
-
-        private boolean readAll(Reader text, int depth) {
-            if (!readAtom(text, depth)) {
-                return false;
-            }
-            for (int i = 0; i < TAPE_MOST && text.takeWord("and"); i++) {
+        /** and binds closer than or: it is put as soon as its right side stands, or behind all of an ALL. */
+        private boolean readCondition(Tape text, int depth) {
+            boolean behindAnd = false;
+            boolean behindOr = false;
+            for (int atom = 0; atom < TAPE_MOST; atom++) {
                 if (!readAtom(text, depth)) {
                     return false;
                 }
-                put(Law.AND);
+                if (behindAnd) {
+                    put(Law.AND);
+                }
+                behindAnd = text.takeWord("and");
+                if (!behindAnd) {
+                    if (behindOr) {
+                        put(Law.OR);
+                    }
+                    behindOr = text.takeWord("or");
+                    if (!behindOr) {
+                        return true;
+                    }
+                }
             }
-            return true;
+            return false;
         }
 
-        private boolean readAtom(Reader text, int depth) {
+        private boolean readAtom(Tape text, int depth) {
             if (text.takeWord("not")) {
                 if (depth >= DEPTH_MOST) {
                     return text.refuse();
@@ -1843,81 +1818,41 @@ public final class SinglesPast {
                 }
                 return readCondition(text, depth + 1) && text.takeSign(')');
             }
-            int fact = takeFact(text);
+            int fact = text.takeOneOf("born does full");
             if (fact != NONE) {
-                put(fact);
+                put(Law.BORN + fact);
                 return true;
             }
-            return readComparison(text);
-        }
-
-        private static int takeFact(Reader text) {
-            if (text.takeWord("born")) {
-                return Law.BORN;
-            }
-            if (text.takeWord("does")) {
-                return Law.DOES;
-            }
-            return text.takeWord("full") ? Law.FULL : NONE;
-        }
-
-        private boolean readComparison(Reader text) {
             if (!readSum(text)) {
                 return false;
             }
-            boolean less = text.takeSign('<');
-            if (!less && !text.takeSign('>')) {
+            int than = text.takeSign('<') ? Law.LESS : text.takeSign('>') ? Law.MORE : NONE;
+            if (than == NONE || !readSum(text)) {
                 return false;
             }
-            if (!readSum(text)) {
-                return false;
-            }
-            put(less ? Law.LESS : Law.MORE);
+            put(than);
             return true;
         }
 
-        private boolean readSum(Reader text) {
-            if (!readPart(text)) {
-                return false;
-            }
-            for (int i = 0; i < TAPE_MOST && text.takeSign('+'); i++) {
-                if (!readPart(text)) {
-                    return false;
+        private boolean readSum(Tape text) {
+            for (int part = 0; part < TAPE_MOST; part++) {
+                if (text.takeNumber(0, NUMBER_MOST)) {
+                    put(text.number);
+                } else {
+                    int name = text.takeOneOf("goer wish money nerve train gone day");
+                    if (name == NONE) {
+                        return false;
+                    }
+                    put(Law.GOER + name);
                 }
-                put(Law.PLUS);
+                if (part > 0) {
+                    put(Law.PLUS);
+                }
+                if (!text.takeSign('+')) {
+                    return true;
+                }
             }
-            return true;
-        }
-
-        private boolean readPart(Reader text) {
-            int sign = text.takeNumber(0, NUMBER_MOST) ? text.number : takeName(text);
-            if (sign == NONE) {
-                return false;
-            }
-            put(sign);
-            return true;
-        }
-
-        private static int takeName(Reader text) {
-            if (text.takeWord("goer")) {
-                return Law.GOER;
-            }
-            if (text.takeWord("wish")) {
-                return Law.WISH;
-            }
-            if (text.takeWord("money")) {
-                return Law.MONEY;
-            }
-            if (text.takeWord("nerve")) {
-                return Law.NERVE;
-            }
-            if (text.takeWord("train")) {
-                return Law.TRAIN;
-            }
-            if (text.takeWord("gone")) {
-                return Law.GONE;
-            }
-            return text.takeWord("day") ? Law.DAY : NONE;
+            return false;
         }
     }
 
