@@ -1,0 +1,109 @@
+import java.nio.charset.StandardCharsets;
+
+/** What the tests share: feeding texts, and telling answers that are not due. */
+final class Check {
+    private static int wrong = 0;
+    private static int asked = 0;
+
+    private Check() {
+    }
+
+    interface Call {
+        void run();
+    }
+
+    static void is(String what, long got, long want) {
+        asked++;
+        if (got != want) {
+            wrong++;
+            System.out.println(what + " answered " + got + ", due is " + want);
+        }
+    }
+
+    static void is(String what, boolean got, boolean want) {
+        is(what, got ? 1 : 0, want ? 1 : 0);
+    }
+
+    static void fails(String what, Class<? extends RuntimeException> want, Call call) {
+        asked++;
+        String got = "nothing";
+        try {
+            call.run();
+        } catch (RuntimeException e) {
+            got = e.getClass().getName();
+        }
+        if (!got.equals(want.getName())) {
+            wrong++;
+            System.out.println(what + " threw " + got + ", due is " + want.getName());
+        }
+    }
+
+    static void noIndex(String what, Call call) {
+        fails(what, IndexOutOfBoundsException.class, call);
+    }
+
+    static void noArgument(String what, Call call) {
+        fails(what, IllegalArgumentException.class, call);
+    }
+
+    static void noState(String what, Call call) {
+        fails(what, IllegalStateException.class, call);
+    }
+
+    static void noElement(String what, Call call) {
+        fails(what, java.util.NoSuchElementException.class, call);
+    }
+
+    /** Puts the text alone on the TAPE. */
+    static void tape(SinglesPast x, String text) {
+        x.end(0);
+        byte[] bytes = text.getBytes(StandardCharsets.ISO_8859_1);
+        for (int i = 0; i < bytes.length; i += 20) {
+            int[] five = new int[5];
+            for (int k = 0; k < 20; k++) {
+                int b = i + k < bytes.length ? bytes[i + k] & 255 : 0;
+                five[k / 4] = five[k / 4] << 8 | b;
+            }
+            x.feed(five[0], five[1], five[2], five[3], five[4]);
+        }
+        x.end(bytes.length);
+    }
+
+    /** Rows to be told: THING, 1 or 0, and so on. */
+    static void rows(SinglesPast x, int... bytes) {
+        StringBuilder s = new StringBuilder();
+        for (int b : bytes) {
+            s.append((char) b);
+        }
+        tape(x, s.toString());
+    }
+
+    static void station(SinglesPast x, String text) {
+        tape(x, text);
+        x.station();
+    }
+
+    static void law(SinglesPast x, String text) {
+        tape(x, text);
+        x.law();
+    }
+
+    static SinglesPast with(String text) {
+        SinglesPast x = new SinglesPast();
+        station(x, text);
+        return x;
+    }
+
+    static SinglesPast with(String text, String law) {
+        SinglesPast x = with(text);
+        law(x, law);
+        return x;
+    }
+
+    static void end() {
+        System.out.println(asked + " answers looked at, " + wrong + " not as due");
+        if (wrong > 0) {
+            System.exit(1);
+        }
+    }
+}
