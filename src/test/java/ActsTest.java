@@ -64,6 +64,22 @@ public final class ActsTest {
             int draw = (next(seedOfDay) >>> 16 & 32767) % 100;
             Check.is("draw " + draw, y.days(1), draw < 45 ? 1 : 0);
         }
+        for (int seedOfDay = 1; seedOfDay < 20; seedOfDay++) {
+            int draw = (next(seedOfDay) >>> 16 & 32767) % 100;
+            SinglesPast y = Check.with("goer to 0 money 99;train seats 1 stops a");
+            y.nerve(0, draw);
+            y.seed(seedOfDay);
+            Check.is("a draw just as great as nerve", y.days(1), 0);
+            y.nerve(0, draw + 1);
+            y.seed(seedOfDay);
+            Check.is("a draw just below nerve", y.days(1), 1);
+        }
+        for (int seedOfDay = 1; seedOfDay < 20; seedOfDay++) {
+            int draw = (next(seedOfDay) >>> 16 & 32767) % 100;
+            SinglesPast y = Check.with("goer to 0 money 99 nerve 100;train seats 1 stops a", "fear " + (100 - draw));
+            y.seed(seedOfDay);
+            Check.is("a draw just as great as nerve less fear", y.days(1), 0);
+        }
         SinglesPast z = Check.with("goer to 0 money 99 nerve 50;train seats 1 stops a", "fear 50");
         Check.is("as much fear as nerve", z.days(60), 0);
         Check.law(z, "fear 90");
@@ -171,6 +187,9 @@ public final class ActsTest {
         Check.is("log -1", x.log(-1, 0), -2);
         Check.noElement("log what 4", () -> x.log(0, 4));
         Check.noElement("log what -1", () -> x.log(99, -1));
+        Check.is("led 1", x.led(1, false), 1);
+        Check.is("led 2", x.led(2, false), 1);
+        Check.is("led 2 day", x.led(2, true), 7);
         Check.is("led 0", x.led(0, false), 3);
         Check.is("led 0 day", x.led(0, true), 9);
         Check.is("led 1 day", x.led(1, true), 10);

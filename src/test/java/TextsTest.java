@@ -6,6 +6,7 @@ public final class TextsTest {
         stationFaults();
         stationTexts();
         stationKeepsNothingOfWrongTexts();
+        textsThatWereCut();
         lawFaults();
         lawTexts();
         lawMeaning();
@@ -91,6 +92,7 @@ public final class TextsTest {
         fault("day 5 day 6", 6);
         fault("Day 5", 0);
         fault("days 5", 0);
+        fault("dayz 5", 0);
         fault("day", 3);
         fault("day ", 4);
         fault("day x", 4);
@@ -137,6 +139,7 @@ public final class TextsTest {
         fault("train seats 1 stops ;", 20);
         fault("train seats 1 stops aba", 20);
         fault("train seats 1 stops abq", 20);
+        fault("train seats 1 stops az", 20);
         fault("train seats 1 stops a b", 22);
         fault("train seats 1 stopsa", 14);
         fault("day 999", -1);
@@ -209,6 +212,34 @@ public final class TextsTest {
         Check.is("no acts behind a text", x.count(9), 0);
         Check.is("no undo behind a text", x.undo(), false);
         Check.is("fault of a right one", x.fault(), -1);
+    }
+
+    /** What end cut off is no part of a text any more, though it may still lie there. */
+    private static void textsThatWereCut() {
+        SinglesPast x = new SinglesPast();
+        Check.tape(x, "day 55");
+        x.end(5);
+        x.station();
+        Check.is("a digit was cut off", x.count(5), 5);
+        Check.tape(x, "day 7;day 8");
+        x.end(5);
+        x.station();
+        Check.is("a line was cut off", x.count(5), 7);
+        Check.tape(x, "day  9");
+        x.end(4);
+        Check.noArgument("a number was cut off", x::station);
+        Check.is("the text's length", x.fault(), 4);
+        Check.tape(x, "train seats 1 stops ab");
+        x.end(21);
+        x.station();
+        Check.is("a letter was cut off", x.train(0, 0), 1);
+        Check.tape(x, "bar if fully");
+        x.end(11);
+        Check.is("the end of a word was cut off", x.law(), 1);
+        Check.tape(x, "bar if full");
+        x.end(10);
+        Check.noArgument("a word was cut off", x::law);
+        Check.is("its begin", x.fault(), 7);
     }
 
     private static void lawFault(String text, int at) {

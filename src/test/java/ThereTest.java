@@ -39,6 +39,10 @@ public final class ThereTest {
         row("thing 2", thing(x, 2), 4, 0, 99, 0, 8, 0, 1, 3);
         row("thing 3", thing(x, 3), 15, 0, 1, 0, 0, 1, 3, 3);
         row("thing 4", thing(x, 4), 2, 0, 1, 2, 0, 0, 1, 2);
+        x.stops(0, 1);
+        Check.is("latest at the first stop", x.thing(3, 7), 0);
+        Check.is("latest at its own stop", x.thing(0, 7), 0);
+        Check.is("a line from thing 0", Check.with("thing at 1;thing at 2;hinders 0 1").thing(1, 6), 2);
         Check.noElement("thing what 8", () -> x.thing(0, 8));
         Check.noElement("thing what -1", () -> x.thing(0, -1));
         Check.noIndex("thing 5", () -> x.thing(5, 0));

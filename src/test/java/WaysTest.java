@@ -85,6 +85,13 @@ public final class WaysTest {
         Check.noIndex("price -1", () -> x.price(-1, false));
         Check.noIndex("crowd 16", () -> x.crowd(16));
         Check.noIndex("crowd -1", () -> x.crowd(-1));
+        Check.is("no goers: price", new SinglesPast().price(0, false), 0);
+        Check.is("no goers: earns", new SinglesPast().price(0, true), 0);
+        SinglesPast z = Check.with("goer to 15 money 1");
+        Check.is("price 1", z.price(15, false), 1);
+        Check.is("the last stop is the dearest", z.dearest(), 15);
+        Check.is("crowd of goer 0", z.crowd(15), 1);
+        Check.is("goer 0 is brave", z.brave(), 0);
         SinglesPast y = Check.with("goer to 0 money 999;goer to 0 money 999");
         Check.is("the greatest price", y.price(0, false), 999);
         Check.is("all it earns", y.price(0, true), 1998);
@@ -238,6 +245,7 @@ public final class WaysTest {
             most = Math.max(most, gone);
         }
         x.seed(1);
+        spansAreOfSixSeeds();
         Check.is("span", x.span(40, false), least);
         Check.is("span most", x.span(40, true), most);
         Check.is("the span is one", most - least, 1);
@@ -249,5 +257,27 @@ public final class WaysTest {
         Check.noArgument("span -1", () -> x.span(-1, true));
         Check.noArgument("span 61", () -> x.span(61, false));
         Check.is("60 days", x.span(60, true) > 0, true);
+    }
+
+    /** Over so many days and nerves each of the six seeds is some time the one that counts, a seventh too. */
+    private static void spansAreOfSixSeeds() {
+        for (int nerve = 5; nerve < 60; nerve += 5) {
+            SinglesPast x = Check.with("goer to 0 money 99;goer to 0 money 99;goer to 0 money 99;train seats 6 stops a");
+            for (int g = 0; g < 3; g++) {
+                x.nerve(g, nerve);
+            }
+            for (int n = 1; n < 7; n++) {
+                int least = 6;
+                int most = 0;
+                for (int seed = 1; seed <= 6; seed++) {
+                    x.seed(seed);
+                    int gone = Integer.bitCount(x.trial(n, false));
+                    least = Math.min(least, gone);
+                    most = Math.max(most, gone);
+                }
+                Check.is("least of " + n + " days, nerve " + nerve, x.span(n, false), least);
+                Check.is("most of " + n + " days, nerve " + nerve, x.span(n, true), most);
+            }
+        }
     }
 }
