@@ -4,6 +4,7 @@ import java.nio.charset.StandardCharsets;
 final class Check {
     private static int wrong = 0;
     private static int asked = 0;
+    private static String place = "";
 
     private Check() {
     }
@@ -15,8 +16,19 @@ final class Check {
     static void is(String what, long got, long want) {
         asked++;
         if (got != want) {
-            wrong++;
-            System.out.println(what + " answered " + got + ", due is " + want);
+            tell(what + " answered " + got + ", due is " + want);
+        }
+    }
+
+    private static void tell(String fault) {
+        wrong++;
+        System.out.println(place + fault);
+    }
+
+    static void is(String what, String got, String want) {
+        asked++;
+        if (!got.equals(want)) {
+            tell(what + " answered " + got + ", due is " + want);
         }
     }
 
@@ -33,8 +45,7 @@ final class Check {
             got = e.getClass().getName();
         }
         if (!got.equals(want.getName())) {
-            wrong++;
-            System.out.println(what + " threw " + got + ", due is " + want.getName());
+            tell(what + " threw " + got + ", due is " + want.getName());
         }
     }
 
@@ -50,8 +61,34 @@ final class Check {
         fails(what, IllegalStateException.class, call);
     }
 
+    /** None of these numbers may be taken for a THING, a GOER, a what, as it may be. */
+    interface CallOf {
+        void run(int n);
+    }
+
+    static void each(Class<? extends RuntimeException> want, CallOf call, int... numbers) {
+        for (int n : numbers) {
+            fails("with " + n, want, () -> call.run(n));
+        }
+    }
+
     static void noElement(String what, Call call) {
         fails(what, java.util.NoSuchElementException.class, call);
+    }
+
+    /** Runs a test under a name that stands ahead of all that it tells; one that asks nothing, or throws, is wrong. */
+    static void under(String name, Call test) {
+        int before = asked;
+        place = name + ": ";
+        try {
+            test.run();
+        } catch (RuntimeException e) {
+            tell("threw " + e);
+        }
+        if (asked == before) {
+            tell("asks nothing");
+        }
+        place = "";
     }
 
     /** Puts the text alone on the TAPE. */
