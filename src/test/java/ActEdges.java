@@ -72,6 +72,8 @@ final class ActEdges {
             Check.is("two by sixty", x.days(60), 2);
             Check.is("the day at last", x.count(5), 121);
             Check.is("without goers", new SinglesPast().days(60), 0);
+            SinglesPast y = Check.with("goer to 4 money 20 nerve 100;".repeat(6) + "train seats 6 stops e");
+            Check.is("all six by one day", y.days(1), 6);
         });
         Edge.of(13, "IllegalArgumentException: they are none.", () ->
             none(IllegalArgumentException.class, (x, n) -> x.days(n), 0, 61, -1, LEAST, MOST));
@@ -244,7 +246,11 @@ final class ActEdges {
     private static void wish() {
         Edge.of(17, "A WISH is told: which it was.", () -> {
             SinglesPast x = small();
-            Check.is("4 at first", x.wish(0, 0), 4);
+            Check.is("in time for his deed", x.world(1), 3);
+            Check.is("4 at first", x.wish(0, 6), 4);
+            Check.is("too late for his deed", x.world(1), 2);
+            Check.is("6", x.wish(0, 0), 6);
+            Check.is("in time again", x.world(1), 3);
             Check.is("the first stop", x.wish(0, 15), 0);
             Check.is("the last stop", x.wish(0, 15), 15);
             Check.is("is", x.goer(0, 0), 15);
@@ -265,7 +271,9 @@ final class ActEdges {
     private static void deed() {
         Edge.of(18, "A DEED is told (thing NONE: none; makes: whether he MAKES it): of which THING it was; NONE.", () -> {
             SinglesPast x = small();
+            Check.is("what he does", x.world(1), 3);
             Check.is("it was the first", x.deed(0, 1, true), 0);
+            Check.is("what he does then", x.world(1), 2);
             Check.is("is the last", x.goer(0, 1) * 10 + x.goer(0, 2), 11);
             Check.is("it was the last", x.deed(0, 1, false), 1);
             Check.is("he hinders it", x.goer(0, 1) * 10 + x.goer(0, 2), 10);
@@ -297,6 +305,7 @@ final class ActEdges {
             Check.is("the other way round", x.quarrel(2, 0, true), false);
             Check.is("each the other one", x.goer(0, 6) * 10 + x.goer(2, 6), 41);
             Check.is("not any more", x.quarrel(2, 0, false), true);
+            Check.is("neither the other one", x.goer(0, 6) + x.goer(2, 6), 0);
             Check.is("not already", x.quarrel(0, 2, false), false);
             Check.is("none", x.goer(0, 6) + x.goer(2, 6), 0);
         });

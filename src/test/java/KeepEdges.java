@@ -160,6 +160,7 @@ final class KeepEdges {
                 String before = Seen.of(x);
                 acts[i].on(x);
                 Check.is("acts by " + i, x.count(9), 2);
+                Check.is("something is otherwise by " + i, Seen.of(x).equals(before), false);
                 Check.is("undone " + i, x.undo(), true);
                 Check.is("as ahead of " + i, Seen.of(x), before);
             }

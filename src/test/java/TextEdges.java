@@ -86,10 +86,14 @@ final class TextEdges {
             Check.is("still 400", x.end(401), false);
             Check.is("the last byte is a blank yet", x.station(), 1);
             Check.is("day", x.count(5), 71);
+            right(x, " ".repeat(390) + "thing at 3");
+            right(x, " ".repeat(387) + "thing at 3 so");
+            right(x, " ".repeat(378) + "train seats 1 stops bp");
+            wrong(x, " ".repeat(397) + "day^");
             Check.tape(x, "day 72" + " ".repeat(375));
             Check.is("381 and 20", x.feed(0, 0, 0, 0, 0), -1);
             Check.is("no 382", x.end(382), false);
-            Check.is("still 381", x.station(), 2);
+            Check.is("still 381", x.station(), 5);
             Check.is("day", x.count(5), 72);
         });
         Edge.of(3, "The TAPE has its first n bytes alone: true", () -> {
@@ -100,9 +104,17 @@ final class TextEdges {
             Check.is("but the last one", x.end(5), true);
             x.station();
             Check.is("day", x.count(5), 7);
+            Check.tape(x, "thing at 3 sofa");
+            Check.is("a word of it", x.end(13), true);
+            x.station();
+            Check.is("so", x.thing(0, 1), 1);
+            Check.tape(x, "train seats 1 stops abc");
+            Check.is("letters of it", x.end(22), true);
+            x.station();
+            Check.is("ab", x.train(0, 0), 3);
             Check.tape(x, "dawn");
             Check.is("none of it", x.end(0), true);
-            Check.is("an empty text", x.station(), 2);
+            Check.is("an empty text", x.station(), 4);
         });
         Edge.of(3, "false, and nothing happens, if it has fewer", () -> {
             SinglesPast x = new SinglesPast();
@@ -281,6 +293,11 @@ final class TextEdges {
             Check.is("things", x.count(0), 8);
             Check.is("the last one", x.thing(7, 0), 3);
             Check.each(IndexOutOfBoundsException.class, t -> x.thing(t, 0), -1, 8);
+            wrong(x, "makes 0 ^8");
+            wrong(x, "makes 0 ^9");
+            wrong(x, "hinders ^8 0");
+            wrong(x, "goer to 1 money 1 does ^8");
+            wrong(x, "goer to 1 money 1 born ^8");
             wrong(new SinglesPast(), times("thing at 3", 8) + ";^thing at 3");
         });
         Edge.of(4, "GOERS (at most 6, numbered from 0 on)", () -> {
@@ -290,6 +307,8 @@ final class TextEdges {
             Check.is("goers", x.count(1), 6);
             Check.is("the last one", x.goer(5, 0), 3);
             Check.each(IndexOutOfBoundsException.class, g -> x.goer(g, 0), -1, 6);
+            wrong(x, "shuns 0 ^6");
+            wrong(x, "shuns ^6 0");
             wrong(new SinglesPast(), times("goer to 3 money 4", 6) + ";^goer to 3 money 4");
         });
         Edge.of(4, "TRAINS (at most 5, numbered from 0 on)", () -> {
@@ -299,6 +318,7 @@ final class TextEdges {
             Check.is("trains", x.count(2), 5);
             Check.is("the last one", x.train(4, 1), 3);
             Check.each(IndexOutOfBoundsException.class, t -> x.train(t, 0), -1, 5);
+            Check.is("stops of all", x.never(), 0xFFFE);
             wrong(new SinglesPast(), times("train seats 3 stops a", 5) + ";^train seats 3 stops a");
         });
         Edge.of(4, "STOPS 0 to 15.", () -> {
@@ -496,6 +516,8 @@ final class TextEdges {
             wrongLaw(x, "cost 1 ^born");
             wrongLaw(x, "bar if born ^if born");
             wrongLaw(x, "^thing at 3");
+            wrongLaw(x, "^5");
+            wrongLaw(x, "^5 if born");
         });
         Edge.of(5, "PART: NUMBER | goer | wish | money | nerve | train | gone | day.", () -> {
             for (String part : new String[] {"goer 1", "wish 5", "money 70", "nerve 20", "train 1", "gone 1", "day 45", "123 123"}) {
@@ -530,6 +552,8 @@ final class TextEdges {
             wrong(x, "^thingat 3");
             wrong(x, "thing at 3 ^soworth 9");
             wrong(x, "^days 7");
+            wrong(x, "^daya 7");
+            wrong(x, "^dayz 7");
             wrong(x, "^da 7");
             wrong(x, "^da y 7");
             wrong(x, "day 7 ^7");
@@ -688,6 +712,9 @@ final class TextEdges {
             x.sell(1, 0);
             Check.is("two of two", x.fear(2, 0), 1);
             Check.is("for one of them too", x.fear(0, 0), 1);
+            Check.law(x, "fear 1 if full;fear 2 if not full;fear 4 if full and 1 < 2");
+            Check.is("not full does not hold then", x.fear(2, 0), 5);
+            Check.law(x, "fear 1 if full");
             x.recall(0);
             Check.is("one again", x.fear(2, 0), 0);
         });
@@ -705,6 +732,9 @@ final class TextEdges {
             for (int g = 0; g < 4; g++) {
                 Check.is("fear of " + g, x.fear(g, 0), fears[g]);
             }
+            Check.is("both", holds("born and does"), true);
+            Check.is("not born", holds("not born"), false);
+            Check.is("does not", holds("not does"), false);
         });
         Edge.of(5, "ATOM: not ATOM | ( C ) | born | does | full | SUM < SUM | SUM > SUM. SUM: PART { + PART }", () -> {
             Check.is("below", holds("69 < money"), true);
@@ -713,12 +743,16 @@ final class TextEdges {
             Check.is("as many is not above", holds("70 > money"), false);
             Check.is("sums on both sides", holds("goer + wish + 1 + train < 2 + 2 + 2 + 3"), true);
             Check.is("sums as great", holds("goer + wish + 1 + train < 2 + 2 + 2 + 2"), false);
+            Check.is("all parts count", holds("3 + 1 < 5 + 0"), true);
+            Check.is("not the last ones alone", holds("2 + 2 < 1 + 3"), false);
             Check.is("a great sum", holds("999 + 999 + 999 > 999 + 999 + 998"), true);
             SinglesPast x = new SinglesPast();
             wrongLaw(x, "bar if ^< 1");
             wrongLaw(x, "bar if 1 < ^< 1");
             wrongLaw(x, "bar if 1 < 2 ^< 3");
             wrongLaw(x, "bar if 1 ^= 1");
+            wrongLaw(x, "bar if 1 ^2");
+            wrongLaw(x, "bar if goer ^wish");
             wrongLaw(x, "bar if 1 + ^+ 1 < 2");
             wrongLaw(x, "bar if 1 + ^born < 2");
             wrongLaw(x, "bar if born ^< 2");
@@ -733,6 +767,9 @@ final class TextEdges {
             Check.is("and goes before or behind it", holds("full and born or born"), true);
             Check.is("not so in brackets", holds("(born or born) and full"), false);
             Check.is("not is of one atom alone", holds("not full and full"), false);
+            Check.is("a bracket's or is its own", holds("full and (full or born)"), false);
+            Check.is("a bracket's and is its own", holds("born and (full and born)"), false);
+            Check.is("a bracket behind or", holds("full or (born and born)"), true);
             Check.is("not of a bracket", holds("not (full and full)"), true);
             Check.is("not of a comparison", holds("not goer > 1 and born"), true);
         });

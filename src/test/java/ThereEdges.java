@@ -192,6 +192,8 @@ final class ThereEdges {
             Check.is("without cost lines", x.cost(0, 0), 10);
             Check.law(x, "cost 0;cost 200 if 1 > 1");
             Check.is("none that holds is more than 0", x.cost(0, 0), 10);
+            Check.law(x, "cost 1 if 1 > 2;cost 2;cost 4 if 1 < 2;cost 8 if 1 > 2;cost 16");
+            Check.is("each line by itself", x.cost(0, 0), 32);
             Check.law(x, ("cost 200;").repeat(11) + "cost 200 if 1 < 2");
             Check.is("the most", x.cost(0, 0), 2410);
             Check.law(x, "cost 1 if goer < 1;cost 2 if train < 1;cost 4 if goer > 0 and train > 0");
@@ -276,6 +278,8 @@ final class ThereEdges {
             Check.is("the next that is not full", x.goer(1, 9), 2);
             Check.is("none of one gone", x.goer(0, 9), -1);
             Check.is("none without trains", Check.with("goer to 3 money 99").goer(0, 9), -1);
+            Check.is("none of five", Check.with("goer to 3 money 99" + ";train seats 1 stops e".repeat(5)).goer(0, 9), -1);
+            Check.is("the last of five", Check.with("goer to 3 money 99" + ";train seats 1 stops e".repeat(4) + ";train seats 1 stops d").goer(0, 9), 4);
         });
     }
 }

@@ -37,6 +37,7 @@ final class WayEdges {
         Edge.of(37, "COLOURS: GOERS not GONE put to TRAINS as if nobody was GONE, each to one that stops at his WISH, at most SEATS, none with one"
                 + " whom he SHUNS, so that as many as can be go: how many", () -> {
             colours("all six", Check.with(six("goer to 0 money 0") + ";train seats 6 stops a"), 6, 0, 0, 0, 0, 0, 0);
+            colours("five trains that stop elsewhere", Check.with("goer to 0 money 0" + ";train seats 1 stops b".repeat(5)), 0, -1);
             colours("five seats", Check.with(six("goer to 0 money 0") + ";train seats 5 stops a"), 5, 0, 0, 0, 0, 0, -1);
             SinglesPast x = Check.with("goer to 0 money 99;goer to 0 money 99;train seats 1 stops a", "cost 50");
             x.sell(0, 0);
@@ -109,6 +110,7 @@ final class WayEdges {
             price("the most", Check.with(six("goer to 15 money 999")), 15, 999, 5994);
             SinglesPast x = Check.with("goer to 3 money 30;goer to 3 money 15;goer to 3 money 10;goer to 4 money 99;train seats 6 stops d");
             price("30, 2 times 15, 3 times 10: the least", x, 3, 10, 30);
+            price("the same told from the least on", Check.with("goer to 3 money 10;goer to 3 money 15;goer to 3 money 30"), 3, 10, 30);
             x.pay(1, 1);
             price("2 times 16", x, 3, 16, 32);
             x.sell(0, 0);
@@ -358,7 +360,10 @@ final class WayEdges {
             x.sell(0, 0);
             Check.is("all gone", x.brave(), -1);
         });
-        Edge.of(47, "BRAVE; NONE.", () -> Check.is("of a new one", new SinglesPast().brave(), -1));
+        Edge.of(47, "BRAVE; NONE.", () -> {
+            Check.is("of a new one", new SinglesPast().brave(), -1);
+            Check.is("of six", Check.with(six("goer to 0 money 0") + " nerve 51").brave(), 5);
+        });
         Edge.of(48, "GONE ones, as bits.", () -> {
             Check.is("of a new one", new SinglesPast().gone(), 0);
             SinglesPast x = Check.with(six("goer to 0 money 99") + ";train seats 6 stops a");

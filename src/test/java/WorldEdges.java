@@ -57,6 +57,12 @@ final class WorldEdges {
             SinglesPast y = Check.with("thing at 1 so;thing at 1 so;thing at 2;makes 0 2;hinders 1 2;thing at 3;makes 0 3;thing at 2;hinders 4 3");
             Check.is("made and hindered", y.world(0) & 4, 0);
             Check.is("made by one, not hindered by one that is not so", y.world(0) & 8, 8);
+            SinglesPast z = Check.with("thing at 15;thing at 0 so;makes 1 0");
+            Check.is("from the first stop to the last", z.world(0), 3);
+            Check.station(z, "hinders 1 0");
+            Check.is("a later text", z.world(0), 2);
+            Check.station(z, "makes 1 0");
+            Check.is("a text later yet", z.world(0), 3);
         });
         Edge.of(22, "but if GOERS of the set whose WISH is at most its STOP have it for their DEED, it is so, if the one of the greatest number"
                 + " MAKES it, and not so, if that one HINDERS it", () -> {
@@ -350,6 +356,8 @@ final class WorldEdges {
             Check.is("one set of a new one", look(new SinglesPast()), -1);
             Check.is("one set without goers", look(Check.with("thing at 5")), -1);
             Check.is("two sets, one world: the least", look(Check.with("thing at 5;thing at 5;goer to 1 money 1")), 0);
+            Check.is("two sets, no thing", look(Check.with("goer to 1 money 1")), -1);
+            Check.is("64 sets, one world", look(Check.with("thing at 5;" + "goer to 1 money 1;".repeat(5) + "goer to 1 money 1")), 0);
         });
         Edge.of(32, "Uses the TAPE up: LOOK (the TAPE likewise); NONE.", () -> {
             SinglesPast x = Check.with("thing at 5;thing at 6;goer to 1 money 0 does 1");
