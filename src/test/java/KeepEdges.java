@@ -273,6 +273,24 @@ final class KeepEdges {
             y.sell(2, 1);
             Check.is("all but the act", Seen.of(x), Seen.of(y).replaceFirst(" 1 \nthing", " 0 \nthing"));
         });
+        Edge.of(62, "and gone back to (but for the TAPE, fault() and THE IMAGE itself)", () -> {
+            SinglesPast x = Check.with("thing at 1 so;thing at 2;thing at 3 so;goer to 1 money 20 does 1;train seats 1 stops b");
+            x.image();
+            Check.is("ahead of it", x.now(), 5);
+            Check.station(x, "makes 0 1;hinders 0 2");
+            Check.is("made and hindered", x.now(), 3);
+            x.back();
+            Check.is("neither made nor hindered any more", x.now(), 5);
+            Check.station(x, "thing at 2 so;hinders 0 3");
+            x.sell(0, 0);
+            Check.is("he makes it", x.now(), 7);
+            x.back();
+            Check.is("he is not gone any more", x.now(), 5);
+            Check.is("nor is there the thing", x.count(0), 3);
+            Check.station(x, "thing at 2 so");
+            Check.is("another one in its place, that none hinders", x.now(), 13);
+            Check.is("nor is hindered by the first", x.thing(0, 4), 0);
+        });
         Edge.of(61, "THE IMAGE is kept.", () -> {
             SinglesPast x = Check.with(SMALL);
             x.image();

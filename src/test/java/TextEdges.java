@@ -505,6 +505,20 @@ final class TextEdges {
             wrong(x, "day 1 ^1");
             wrong(x, "^worth 3");
             wrong(x, "^cost 3");
+            for (String lacking : new String[] {"thing ^so", "thing at ^so", "thing at 3 worth ^so", "makes ^so", "makes 0 ^makes 0 1", "hinders 0 ^so",
+                "goer ^1 money 1", "goer ^money 1", "goer to ^money 1", "goer to 1 ^1", "goer to 1 ^does 0", "goer to 1 money ^does 0",
+                "goer to 1 money 1 nerve ^does 0", "goer to 1 money 1 does ^born 0", "goer to 1 money 1 undoes ^born 0",
+                "goer to 1 money 1 born ^so", "shuns ^so", "shuns 0 ^so", "train ^1 stops a", "train ^stops a", "train seats ^stops a",
+                "train seats 1 ^1", "day ^so"}) {
+                wrong(x, lacking);
+            }
+            for (String ended : new String[] {"thing^", "thing at^", "thing at 3 worth^", "makes^", "makes 0^", "hinders^", "hinders 0^", "goer^",
+                "goer to^", "goer to 1^", "goer to 1 money^", "goer to 1 money 1 nerve^", "goer to 1 money 1 does^",
+                "goer to 1 money 1 undoes^", "goer to 1 money 1 born^", "shuns^", "shuns 0^", "train^", "train seats^", "train seats 1^",
+                "train seats 1 stops^", "day^"}) {
+                wrong(x, ended + ";day 1");
+                wrong(x, ended);
+            }
         });
         Edge.of(5, "cost N [ if C ] | fear N [ if C ] | bar [ if C ].", () -> {
             SinglesPast x = new SinglesPast();
@@ -518,6 +532,11 @@ final class TextEdges {
             wrongLaw(x, "^thing at 3");
             wrongLaw(x, "^5");
             wrongLaw(x, "^5 if born");
+            for (String ended : new String[] {"cost^", "fear^", "cost 1 if^", "bar if^", "bar if not^", "bar if (^", "bar if (born^", "bar if 1^",
+                "bar if 1 +^", "bar if 1 <^", "bar if 1 < 1 +^", "bar if born and^", "bar if born or^"}) {
+                wrongLaw(x, ended + ";bar");
+                wrongLaw(x, ended);
+            }
         });
         Edge.of(5, "PART: NUMBER | goer | wish | money | nerve | train | gone | day.", () -> {
             for (String part : new String[] {"goer 1", "wish 5", "money 70", "nerve 20", "train 1", "gone 1", "day 45", "123 123"}) {

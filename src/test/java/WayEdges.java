@@ -276,6 +276,8 @@ final class WayEdges {
             pairs("four: the least other one", Check.with("goer to 0 money 0;goer to 0 money 0;goer to 0 money 0;goer to 0 money 0"), 2, 1, 0, 3, 2);
             pairs("two wishes", Check.with("goer to 0 money 0;goer to 1 money 0;goer to 0 money 0;goer to 1 money 0;goer to 1 money 0"),
                     2, 2, -1, 0, 4, 3);
+            pairs("a later other one stays alone", Check.with("goer to 0 money 0;goer to 0 money 0;goer to 1 money 0;goer to 1 money 0;"
+                    + "goer to 2 money 0;goer to 1 money 0;shuns 3 5"), 2, 1, 0, 3, 2, -1, -1);
         });
         Edge.of(44, "PAIRS: how many (goer NONE), or with whom one is; NONE (also of one GONE).", () -> {
             SinglesPast x = Check.with("goer to 0 money 99;goer to 0 money 99;train seats 6 stops a");
