@@ -308,6 +308,13 @@ final class ActEdges {
             Check.is("neither the other one", x.goer(0, 6) + x.goer(2, 6), 0);
             Check.is("not already", x.quarrel(0, 2, false), false);
             Check.is("none", x.goer(0, 6) + x.goer(2, 6), 0);
+            SinglesPast y = Check.with("goer to 4 money 20;".repeat(5) + "goer to 4 money 20;shuns 0 1;shuns 0 2;shuns 1 3;shuns 5 1");
+            Check.is("two of them do not", y.quarrel(0, 1, false), true);
+            Check.is("the others of the first stay", y.goer(0, 6), 4);
+            Check.is("the others of the second stay", y.goer(1, 6), 8 + 32);
+            Check.is("the last two do", y.quarrel(4, 5, true), true);
+            Check.is("beside those before", y.goer(5, 6), 2 + 16);
+            Check.is("and of the other one", y.goer(4, 6), 32);
         });
         Edge.of(19, "IllegalArgumentException: both are one.", () -> {
             none(IllegalArgumentException.class, (x, n) -> x.quarrel(n, n, true), 0, 1, 2);

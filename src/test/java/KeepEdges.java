@@ -189,6 +189,9 @@ final class KeepEdges {
             Check.is("one", x.undo(), true);
             Check.is("none any more", x.undo(), false);
             Check.is("none of a new one", new SinglesPast().undo(), false);
+            SinglesPast y = Check.with("thing at 3 so;thing at 5 so");
+            Check.is("none behind a text", y.undo(), false);
+            Check.is("what is so is not touched by it", y.now(), 3);
         });
     }
 

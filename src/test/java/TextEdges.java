@@ -46,6 +46,14 @@ final class TextEdges {
         Check.is("fault of " + marked, x.fault(), marked.indexOf('^'));
     }
 
+    private static String row(java.util.function.IntUnaryOperator answer, int whats) {
+        StringBuilder s = new StringBuilder();
+        for (int what = 0; what < whats; what++) {
+            s.append(answer.applyAsInt(what)).append(' ');
+        }
+        return s.toString();
+    }
+
     private static String times(String line, int n) {
         return (line + ";").repeat(n - 1) + line;
     }
@@ -299,6 +307,11 @@ final class TextEdges {
             wrong(x, "goer to 1 money 1 does ^8");
             wrong(x, "goer to 1 money 1 born ^8");
             wrong(new SinglesPast(), times("thing at 3", 8) + ";^thing at 3");
+            SinglesPast y = Check.with(times("thing at 15", 6) + ";thing at 2 worth 98;thing at 1 so worth 99;makes 7 6;hinders 7 5;hinders 6 4");
+            Check.is("all of the last one", row(what -> y.thing(7, what), 7), "1 1 99 64 32 1 1 ");
+            Check.is("all of the one ahead of it", row(what -> y.thing(6, what), 7), "2 0 98 0 16 1 2 ");
+            right(y, "makes 7 5;hinders 7 6");
+            Check.is("told again in another text", row(what -> y.thing(7, what), 7), "1 1 99 32 64 1 1 ");
         });
         Edge.of(4, "GOERS (at most 6, numbered from 0 on)", () -> {
             SinglesPast x = new SinglesPast();
@@ -310,6 +323,9 @@ final class TextEdges {
             wrong(x, "shuns 0 ^6");
             wrong(x, "shuns ^6 0");
             wrong(new SinglesPast(), times("goer to 3 money 4", 6) + ";^goer to 3 money 4");
+            SinglesPast y = Check.with("thing at 3;thing at 4;" + times("goer to 3 money 4", 5) + ";goer to 15 money 999 nerve 99 does 1 born 0;shuns 5 4");
+            Check.is("all of the last one", row(what -> y.goer(5, what), 8), "15 1 1 0 999 99 16 0 ");
+            Check.is("all of the one ahead of it", row(what -> y.goer(4, what), 8), "3 -1 0 -1 4 50 32 0 ");
         });
         Edge.of(4, "TRAINS (at most 5, numbered from 0 on)", () -> {
             SinglesPast x = new SinglesPast();
@@ -320,6 +336,10 @@ final class TextEdges {
             Check.each(IndexOutOfBoundsException.class, t -> x.train(t, 0), -1, 5);
             Check.is("stops of all", x.never(), 0xFFFE);
             wrong(new SinglesPast(), times("train seats 3 stops a", 5) + ";^train seats 3 stops a");
+            SinglesPast y = Check.with("goer to 15 money 10;" + times("train seats 3 stops a", 4) + ";train seats 6 stops ap");
+            y.sell(0, 4);
+            Check.is("all of the last one", row(what -> y.train(4, what), 4), "32769 6 1 100 ");
+            Check.is("all of the one ahead of it", row(what -> y.train(3, what), 4), "1 3 0 0 ");
         });
         Edge.of(4, "STOPS 0 to 15.", () -> {
             SinglesPast x = new SinglesPast();
@@ -467,6 +487,9 @@ final class TextEdges {
             wrong(x, "train seats 1 stops ^aa");
             wrong(x, "train seats 1 stops ^abcdefghijklmnopa");
             wrong(x, "train seats 1 stops a^A");
+            wrong(x, "train seats 1 stops a^{");
+            wrong(x, "train seats 1 stops a^`");
+            wrong(x, "train seats 1 stops a^\u00e1");
             wrong(x, "train seats 1 stops a^1");
             wrong(x, "train seats 1 stops ^1");
             wrong(x, "train seats 1 stops ^;day 1");
@@ -582,6 +605,8 @@ final class TextEdges {
             wrong(x, "day^\u00a07");
             wrong(x, "^\tday 7");
             wrong(x, "day 7^\n");
+            wrong(x, "day^{7");
+            wrong(x, "day^`7");
             wrong(x, "^Day 7");
             wrong(x, "thing^At 3");
         });
