@@ -69,6 +69,9 @@ final class KeepEdges {
             Check.is("the oldest is a going", x.log(59, 3), 10);
             Check.is("of the other one", x.log(59, 1), 0);
             Check.is("the latest is a calling back", x.log(0, 3), -1);
+            for (int ago = 0; ago < 60; ago++) {
+                Check.is("row " + ago, x.log(ago, 3), ago % 2 == 0 ? -1 : 10);
+            }
             x.undo();
             Check.is("60 yet", x.count(8), 60);
             Check.is("the oldest of all is there again", x.log(59, 1), 1);

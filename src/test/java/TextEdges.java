@@ -585,6 +585,10 @@ final class TextEdges {
             wrong(x, "day ^99999999999999999999");
             wrong(x, "day ^");
             wrong(x, "day ^-1");
+            wrong(x, "day ^/7");
+            wrong(x, "day ^:7");
+            wrong(x, "day 7^/");
+            wrong(x, "day 7^:");
             wrong(x, "day 1^.5");
         });
         Edge.of(4, "Words are as long as a to z go on; between all there may be blanks (32), also ahead and behind.", () -> {
@@ -761,6 +765,12 @@ final class TextEdges {
             Check.law(x, "fear 1 if full");
             x.recall(0);
             Check.is("one again", x.fear(2, 0), 0);
+            SinglesPast y = Check.with("goer to 1 money 99;goer to 15 money 99;train seats 1 stops bp;train seats 2 stops bp", "fear 1 if full");
+            y.sell(0, 0);
+            Check.is("one of one", y.fear(1, 0), 1);
+            Check.is("none of two", y.fear(1, 1), 0);
+            y.sell(1, 1);
+            Check.is("one of two by the other", y.fear(0, 1), 0);
         });
         Edge.of(5, "gone: how many are GONE by it", () -> {
             Check.is("one", holds("gone > 0 and gone < 2"), true);

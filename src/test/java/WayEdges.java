@@ -386,6 +386,8 @@ final class WayEdges {
             Check.is("one thing, unlike wish", Check.with("thing at 5;goer to 0 money 0 does 0;goer to 1 money 0 does 0").twins(), 0);
             Check.is("two things", Check.with("thing at 5;thing at 5;goer to 0 money 0 does 0;goer to 0 money 0 does 1").twins(), 0);
             Check.is("one has none", Check.with("thing at 5;goer to 0 money 0 does 0;goer to 0 money 0").twins(), 0);
+            Check.is("like wish alone counts", Check.with("goer to 3 money 7;goer to 3 money 9 nerve 3;train seats 2 stops bc;train seats 4 stops d").twins(), 1);
+            Check.is("like money does not", Check.with("goer to 7 money 3;goer to 3 money 3;train seats 3 stops ab").twins(), 0);
         });
         Edge.of(52, "EMPTY: TRAINS by which nobody is GONE, as bits.", () -> {
             SinglesPast x = Check.with("goer to 0 money 99;train seats 1 stops a;train seats 1 stops a;train seats 1 stops a;train seats 1 stops a;train seats 1 stops a");
@@ -503,6 +505,11 @@ final class WayEdges {
 
     private static void span() {
         Edge.of(56, "SPAN: the least and the greatest number GONE so from SEED 1, 2, .. 6.", () -> {
+            SinglesPast all = Check.with(six("goer to 0 money 99 nerve 100") + ";train seats 6 stops a");
+            Check.is("all six, always", all.span(1, false) * 10 + all.span(1, true), 66);
+            Check.is("none in no day", all.span(0, false) * 10 + all.span(0, true), 0);
+            SinglesPast nobody = new SinglesPast();
+            Check.is("none of nobody", nobody.span(60, false) * 10 + nobody.span(60, true), 0);
             for (int nerve = 0; nerve <= 100; nerve += 5) {
                 SinglesPast x = Check.with("goer to 0 money 99;goer to 0 money 99;goer to 0 money 99;train seats 6 stops a");
                 for (int g = 0; g < 3; g++) {

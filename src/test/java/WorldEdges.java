@@ -59,6 +59,7 @@ final class WorldEdges {
             Check.is("made by one, not hindered by one that is not so", y.world(0) & 8, 8);
             SinglesPast z = Check.with("thing at 15;thing at 0 so;makes 1 0");
             Check.is("from the first stop to the last", z.world(0), 3);
+            Check.is("two of the last stop", Check.with("thing at 0;thing at 15 so;thing at 15 so").world(0), 6);
             Check.station(z, "hinders 1 0");
             Check.is("a later text", z.world(0), 2);
             Check.station(z, "makes 1 0");
@@ -189,6 +190,12 @@ final class WorldEdges {
                     + "goer to 1 money 99 undoes 2 born 2;train seats 6 stops b";
             Check.is("two", gone(two, 0, 1).ring(), 3);
             Check.is("one is fewer than two", gone(two, 0, 1, 2).ring(), 4);
+            // Each makes what the next one is born of, but the last one undoes what the first one is born of.
+            String all = "thing at 5 so;" + "thing at 5;".repeat(5) + "goer to 1 money 99 does 1 born 0;goer to 1 money 99 does 2 born 1;"
+                    + "goer to 1 money 99 does 3 born 2;goer to 1 money 99 does 4 born 3;goer to 1 money 99 does 5 born 4;"
+                    + "goer to 1 money 99 undoes 0 born 5;train seats 6 stops b";
+            Check.is("all six", gone(all, 0, 1, 2, 3, 4, 5).ring(), 63);
+            Check.is("five of them are none", gone(all, 0, 1, 2, 3, 5).ring(), -1);
         });
         Edge.of(27, "(never nobody: of nobody the set of nobody does); none.", () -> {
             Check.is("of a new one", new SinglesPast().ring(), -1);
@@ -255,6 +262,10 @@ final class WorldEdges {
             Check.is("two, if one may not", send(x, 0, 1, 1, 1, 2, 0), 3);
             Check.is("none: told so and not", send(x, 0, 1, 0, 0), -1);
             Check.is("none: nobody can", send(x, 2, 1, 1, 0), -1);
+            SinglesPast all = Check.with("thing at 5;".repeat(6) + "goer to 1 money 0 does 0;goer to 1 money 0 does 1;goer to 1 money 0 does 2;"
+                    + "goer to 1 money 0 does 3;goer to 1 money 0 does 4;goer to 1 money 0 does 5");
+            Check.is("all six", send(all, 0, 1, 1, 1, 2, 1, 3, 1, 4, 1, 5, 1), 63);
+            Check.is("all but the first", send(all, 0, 0, 1, 1, 2, 1, 3, 1, 4, 1, 5, 1), 62);
             SinglesPast y = gone("thing at 5 so;goer to 2 money 99 undoes 0 born 0;goer to 2 money 99;goer to 2 money 99 undoes 0;train seats 6 stops c", 0);
             Check.is("no past", y.past(), -1);
             Check.is("so that there is one", send(y), 4);
