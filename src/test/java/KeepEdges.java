@@ -43,6 +43,17 @@ final class KeepEdges {
             x.recall(0);
             Check.is("a calling back is a row", x.led(0, false), 2);
             Check.is("the day of the latest", x.led(0, true), 8);
+            SinglesPast y = Check.with("goer to 0 money 99 nerve 0;goer to 0 money 99 nerve 0;goer to 0 money 99 nerve 0;train seats 6 stops a");
+            y.sell(0, 0);
+            y.sell(2, 0);
+            y.recall(2);
+            y.days(1);
+            y.recall(0);
+            y.sell(2, 0);
+            Check.is("two of the first", y.led(0, false), 2);
+            Check.is("three of the last", y.led(2, false), 3);
+            Check.is("the latest of the first", y.led(0, true), 1);
+            Check.is("the latest of the last", y.led(2, true), 1);
         });
         Edge.of(57, "LED: how many rows (day false), or the DAY; NONE.", () -> {
             SinglesPast x = Check.with("goer to 0 money 99;goer to 0 money 99;train seats 6 stops a");
@@ -217,6 +228,18 @@ final class KeepEdges {
             x.end(0);
             x.send();
             Check.is("nothing else is one", x.count(9), 10);
+            SinglesPast same = Check.with(SMALL);
+            Act[] again = {y -> y.nerve(0, 100), y -> y.wish(0, 4), y -> y.deed(0, 0, true), y -> y.deed(1, -1, false), y -> y.quarrel(0, 1, false),
+                y -> y.stops(0, 16)};
+            for (int i = 0; i < again.length; i++) {
+                again[i].on(same);
+                Check.is("what was so already is told, " + i, same.count(9), i + 1);
+            }
+            SinglesPast rich = Check.with("goer to 1 money 999;goer to 1 money 0 nerve 0");
+            rich.pay(0, 1);
+            Check.is("money is given to one who has the most", rich.count(9), 1);
+            rich.days(1);
+            Check.is("a day on which nobody goes", rich.count(9), 2);
         });
     }
 

@@ -817,6 +817,13 @@ final class TextEdges {
             wrongLaw(x, "bar if not ^and born");
         });
         Edge.of(5, "C: ALL { or ALL }; ALL: ATOM { and ATOM }", () -> {
+            Check.is("or of two that hold", holds("born or does"), true);
+            Check.is("or of three that hold", holds("born or does or 1 < 2"), true);
+            Check.is("or of none", holds("full or full or full"), false);
+            Check.is("the last of three", holds("full or full or born"), true);
+            Check.is("and of three", holds("born and does and 1 < 2"), true);
+            Check.is("and but for the first", holds("full and born and does"), false);
+            Check.is("and but for the last", holds("born and does and full"), false);
             Check.is("and goes before or", holds("born or born and full"), true);
             Check.is("and goes before or behind it", holds("full and born or born"), true);
             Check.is("not so in brackets", holds("(born or born) and full"), false);

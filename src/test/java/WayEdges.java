@@ -387,6 +387,10 @@ final class WayEdges {
             Check.is("two things", Check.with("thing at 5;thing at 5;goer to 0 money 0 does 0;goer to 0 money 0 does 1").twins(), 0);
             Check.is("one has none", Check.with("thing at 5;goer to 0 money 0 does 0;goer to 0 money 0").twins(), 0);
             Check.is("like wish alone counts", Check.with("goer to 3 money 7;goer to 3 money 9 nerve 3;train seats 2 stops bc;train seats 4 stops d").twins(), 1);
+            SinglesPast x = Check.with("goer to 0 money 99;goer to 0 money 99;goer to 0 money 99;train seats 6 stops a");
+            x.sell(0, 0);
+            x.sell(1, 0);
+            Check.is("also of two gone, and of one of them", x.twins(), 3);
             Check.is("like money does not", Check.with("goer to 7 money 3;goer to 3 money 3;train seats 3 stops ab").twins(), 0);
         });
         Edge.of(52, "EMPTY: TRAINS by which nobody is GONE, as bits.", () -> {
