@@ -127,6 +127,11 @@ final class ActEdges {
                 x.seed(seed);
                 Check.is("below by one, seed " + seed, x.days(1), drawn(seed) <= 96 ? 1 : 0);
             }
+            SinglesPast y = Check.with("goer to 4 money 20 nerve 100;goer to 4 money 20 nerve 100;train seats 6 stops e;train seats 6 stops e", "fear 100 if goer > 0");
+            Check.is("one has no fear", y.days(60), 1);
+            Check.is("it is the first", y.gone(), 1);
+            Check.law(y, "fear 100 if train < 1");
+            Check.is("both fear their first train", y.days(60), 0);
         });
         Edge.of(13, "(the DRAW always; without such a TRAIN he stays)", () -> {
             SinglesPast x = Check.with("goer to 4 money 20 nerve 0;goer to 5 money 20 nerve 100;goer to 4 money 9 nerve 100;train seats 6 stops e");
@@ -166,6 +171,10 @@ final class ActEdges {
             Check.is("gone", x.goer(0, 8), 0);
             Check.is("no day more", x.count(5), 0);
             Check.is("no draw", x.seed(1), 1);
+            SinglesPast y = Check.with("goer to 4 money 99;goer to 4 money 99;train seats 2 stops e;train seats 2 stops e", "cost 1 if goer > 0;cost 2 if train > 0");
+            Check.is("of this goer by this train", y.sell(0, 1), 12);
+            Check.is("of that goer by that train", y.sell(1, 0), 11);
+            Check.is("it is taken from him", y.goer(0, 4) * 100 + y.goer(1, 4), 8788);
         });
         Edge.of(14, "IllegalStateException: he CAN not.", () -> {
             String station = "goer to 4 money 99;goer to 4 money 99;goer to 4 money 14;goer to 4 money 99;goer to 5 money 99;shuns 0 1;"
@@ -293,6 +302,10 @@ final class ActEdges {
             noGoers((x, n) -> x.deed(n, 0, true));
             noGoers((x, n) -> x.deed(n, -1, true));
             none(IndexOutOfBoundsException.class, (x, n) -> x.deed(0, n, true), 2, 8, 32, -2, MOST, LEAST);
+            SinglesPast fewer = Check.with("thing at 3;goer to 3 money 20;goer to 4 money 20;train seats 1 stops d;train seats 1 stops e");
+            Check.noIndex("more trains than things", () -> fewer.deed(0, 1, true));
+            SinglesPast more = Check.with("thing at 3;thing at 3;goer to 3 money 20;train seats 1 stops d");
+            Check.is("fewer trains than things", more.deed(0, 1, true), -1);
             none(IndexOutOfBoundsException.class, (x, n) -> x.deed(2, n, true), 2, -2);
         });
     }

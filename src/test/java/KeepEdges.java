@@ -172,11 +172,13 @@ final class KeepEdges {
                 SinglesPast x = Check.with(SMALL, "cost 3");
                 x.sell(2, 1);
                 String before = Seen.of(x);
+                String answers = Seen.answers(x);
                 acts[i].on(x);
                 Check.is("acts by " + i, x.count(9), 2);
                 Check.is("something is otherwise by " + i, Seen.of(x).equals(before), false);
                 Check.is("undone " + i, x.undo(), true);
                 Check.is("as ahead of " + i, Seen.of(x), before);
+                Check.is("answers as ahead of " + i, Seen.answers(x), answers);
             }
             SinglesPast x = Check.with(SMALL);
             x.pay(0, 1);
@@ -318,6 +320,24 @@ final class KeepEdges {
             Check.is("nor is there the thing", x.count(0), 3);
             Check.station(x, "thing at 2 so");
             Check.is("another one in its place, that none hinders", x.now(), 13);
+            SinglesPast y = Check.with("day 3");
+            y.image();
+            Check.station(y, "thing at 9 so worth 9;thing at 12;makes 0 1;goer to 1 money 999 nerve 100 undoes 0 born 1;goer to 3 money 800 born 0;"
+                    + "goer to 4 money 70 does 1;shuns 0 1;train seats 6 stops bde;train seats 3 stops abde;train seats 2 stops e");
+            y.back();
+            Check.tape(y, SMALL);
+            Check.is("other things, goers, trains in their places", y.station(), 2);
+            SinglesPast z = Check.with(SMALL);
+            z.seed(1);
+            Check.is("what they answer", Seen.answers(y), Seen.answers(z));
+            Check.station(y, "thing at 15;goer to 15 money 1;train seats 1 stops p");
+            y.back();
+            Check.station(y, SMALL);
+            y.image();
+            Check.station(y, "thing at 1 so worth 90;makes 2 0;hinders 2 1;goer to 1 money 900 nerve 99 does 2;goer to 1 money 30;train seats 3 stops b");
+            y.days(3);
+            y.back();
+            Check.is("what they answer again", Seen.answers(y), Seen.answers(z));
             Check.is("nor is hindered by the first", x.thing(0, 4), 0);
         });
         Edge.of(61, "THE IMAGE is kept.", () -> {
@@ -336,6 +356,13 @@ final class KeepEdges {
             Check.station(y, SMALL);
             y.back();
             Check.is("of a new one", Seen.of(y), Seen.of(new SinglesPast()));
+            Check.noIndex("no thing", () -> y.thing(0, 0));
+            Check.noIndex("no goer", () -> y.goer(0, 0));
+            Check.noIndex("no train", () -> y.train(0, 0));
+            Check.rows(y, 0, 0);
+            Check.noArgument("no row about a thing", y::send);
+            Check.is("no goer is in a set", y.world(-1) * 10 + (y.agrees(-1) ? 1 : 0), 1);
+            Check.is("what a new one answers", Seen.answers(y), Seen.answers(new SinglesPast()));
         });
         Edge.of(62, "One goes back to THE IMAGE: true; false, and nothing happens, if none was kept.", () -> {
             SinglesPast x = Check.with(SMALL);

@@ -279,6 +279,14 @@ final class TextEdges {
             }
             Check.fails("text 13", UnsupportedOperationException.class, x::station);
             Check.is("texts", x.count(3), 12);
+            SinglesPast y = new SinglesPast();
+            for (int i = 1; i <= 11; i++) {
+                right(y, "");
+            }
+            right(y, "thing at 7;goer to 7 money 20;train seats 1 stops h");
+            Check.is("the twelfth tells of a thing", y.thing(0, 0), 7);
+            Check.is("and of a goer", y.goer(0, 0), 7);
+            Check.is("and of a train", y.train(0, 0), 1 << 7);
         });
         Edge.of(4, "LINE { ; LINE }, at most 14", () -> {
             right(new SinglesPast(), "day 1");
@@ -562,7 +570,7 @@ final class TextEdges {
             }
         });
         Edge.of(5, "PART: NUMBER | goer | wish | money | nerve | train | gone | day.", () -> {
-            for (String part : new String[] {"goer 1", "wish 5", "money 70", "nerve 20", "train 1", "gone 1", "day 45", "123 123"}) {
+            for (String part : new String[] {"goer 1", "wish 5", "money 70", "nerve 20", "train 2", "gone 1", "day 45", "123 123"}) {
                 String[] two = part.split(" ");
                 Check.is(part + " is not below", holds(two[0] + " < " + two[1]), false);
                 Check.is(part + " is not above", holds(two[0] + " > " + two[1]), false);
@@ -735,13 +743,13 @@ final class TextEdges {
         });
     }
 
-    /** A station in which GOER 1, of WISH 5, MONEY 70 and NERVE 20, is looked at for TRAIN 1 on DAY 345. */
+    /** A station in which GOER 1, of WISH 5, MONEY 70 and NERVE 20, is looked at for TRAIN 2 on DAY 345. */
     private static boolean holds(String condition) {
-        SinglesPast x = Check.with("thing at 9;goer to 3 money 40;goer to 5 money 70 nerve 20 undoes 0 born 0;goer to 5 money 500;"
-                + "train seats 6 stops p;train seats 2 stops f;day 345");
-        x.sell(2, 1);
+        SinglesPast x = Check.with("thing at 9;goer to 3 money 40;goer to 5 money 70 nerve 20 undoes 0 born 0;goer to 6 money 500;"
+                + "train seats 6 stops p;train seats 6 stops p;train seats 2 stops fg;day 345");
+        x.sell(2, 2);
         Check.law(x, "fear 7 if " + condition);
-        return x.fear(1, 1) == 7;
+        return x.fear(1, 2) == 7;
     }
 
     private static void lawReading() {
@@ -795,8 +803,8 @@ final class TextEdges {
             Check.is("as many is not below", holds("70 < money"), false);
             Check.is("above", holds("71 > money"), true);
             Check.is("as many is not above", holds("70 > money"), false);
-            Check.is("sums on both sides", holds("goer + wish + 1 + train < 2 + 2 + 2 + 3"), true);
-            Check.is("sums as great", holds("goer + wish + 1 + train < 2 + 2 + 2 + 2"), false);
+            Check.is("sums on both sides", holds("goer + wish + 1 + train < 2 + 2 + 2 + 4"), true);
+            Check.is("sums as great", holds("goer + wish + 1 + train < 2 + 2 + 2 + 3"), false);
             Check.is("all parts count", holds("3 + 1 < 5 + 0"), true);
             Check.is("not the last ones alone", holds("2 + 2 < 1 + 3"), false);
             Check.is("a great sum", holds("999 + 999 + 999 > 999 + 999 + 998"), true);
@@ -819,6 +827,8 @@ final class TextEdges {
         Edge.of(5, "C: ALL { or ALL }; ALL: ATOM { and ATOM }", () -> {
             Check.is("or of two that hold", holds("born or does"), true);
             Check.is("or of three that hold", holds("born or does or 1 < 2"), true);
+            Check.is("or of two that hold, in brackets", holds("(born or does) and 1 < 2"), true);
+            Check.is("not of an or of two that hold", holds("not (born or does)"), false);
             Check.is("or of none", holds("full or full or full"), false);
             Check.is("the last of three", holds("full or full or born"), true);
             Check.is("and of three", holds("born and does and 1 < 2"), true);

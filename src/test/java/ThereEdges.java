@@ -24,6 +24,24 @@ final class ThereEdges {
         Check.each(IndexOutOfBoundsException.class, call, first, first + 1, 31, 32, 64, MOST, -1, -2, LEAST);
     }
 
+    private interface On {
+        void call(SinglesPast x, int n);
+    }
+
+    /** With fewer GOERS than TRAINS, and with more: neither is counted for the other. */
+    private static void fewerOf(On goers, On trains) {
+        SinglesPast x = Check.with("thing at 3;thing at 4;thing at 5;goer to 3 money 20;train seats 1 stops d;train seats 1 stops e");
+        goers.call(x, 0);
+        trains.call(x, 1);
+        Check.noIndex("no second goer", () -> goers.call(x, 1));
+        Check.noIndex("no third train", () -> trains.call(x, 2));
+        SinglesPast y = Check.with("thing at 3;thing at 4;thing at 5;goer to 3 money 20;goer to 4 money 20;train seats 1 stops d");
+        goers.call(y, 1);
+        trains.call(y, 0);
+        Check.noIndex("no third goer", () -> goers.call(y, 2));
+        Check.noIndex("no second train", () -> trains.call(y, 1));
+    }
+
     private static void indices() {
         Edge.of(7, "IndexOutOfBoundsException: there is no such STOP, THING, GOER, TRAIN.", () -> {
             SinglesPast x = Check.with(TWO_OF_ALL);
@@ -42,6 +60,7 @@ final class ThereEdges {
         Edge.of(9, "IndexOutOfBoundsException: there is no such STOP, THING, GOER, TRAIN.", () -> {
             SinglesPast x = Check.with(TWO_OF_ALL);
             noIndices(t -> x.train(t, 0), 2);
+            fewerOf((y, g) -> y.goer(g, 0), (y, t) -> y.train(t, 0));
             Check.is("the last one", x.train(1, 0), 16);
             noIndices(t -> new SinglesPast().train(t, 0), 0);
             noIndices(t -> x.train(t, 4), 2);
@@ -50,18 +69,21 @@ final class ThereEdges {
             SinglesPast x = Check.with(TWO_OF_ALL, "cost 5");
             noIndices(g -> x.cost(g, 0), 2);
             noIndices(t -> x.cost(0, t), 2);
+            fewerOf((y, g) -> y.cost(g, 0), (y, t) -> y.cost(0, t));
             Check.is("the last ones", x.cost(1, 1), 15);
         });
         Edge.of(11, "IndexOutOfBoundsException: there is no such STOP, THING, GOER, TRAIN.", () -> {
             SinglesPast x = Check.with(TWO_OF_ALL, "fear 5");
             noIndices(g -> x.fear(g, 0), 2);
             noIndices(t -> x.fear(0, t), 2);
+            fewerOf((y, g) -> y.fear(g, 0), (y, t) -> y.fear(0, t));
             Check.is("the last ones", x.fear(1, 1), 5);
         });
         Edge.of(12, "IndexOutOfBoundsException: there is no such STOP, THING, GOER, TRAIN.", () -> {
             SinglesPast x = Check.with(TWO_OF_ALL);
             noIndices(g -> x.may(g, 0), 2);
             noIndices(t -> x.may(0, t), 2);
+            fewerOf((y, g) -> y.may(g, 0), (y, t) -> y.may(0, t));
             Check.is("the last ones", x.may(1, 1), true);
         });
     }

@@ -46,6 +46,13 @@ final class WayEdges {
             colours("who shun one another", y, 2, 0, 1, -1);
             y.sell(0, 0);
             colours("one gone shuns nobody", y, 1, -1, 0, -1);
+            SinglesPast z = Check.with("goer to 0 money 99;goer to 0 money 99;train seats 2 stops a;train seats 1 stops b");
+            z.quarrel(0, 1, true);
+            colours("shunning is told", z, 1, 0, -1);
+            z.wish(0, 1);
+            colours("a wish is told", z, 2, 1, 0);
+            z.stops(1, 4);
+            colours("a train stops elsewhere", z, 1, -1, 0);
             colours("barred or not", Check.with("goer to 0 money 0;train seats 1 stops a", "bar;cost 200"), 1, 0);
         });
         Edge.of(37, "with which TRAIN a GOER is in the first such way (GOER by GOER, none behind all TRAINS); none.", () -> {
@@ -116,6 +123,9 @@ final class WayEdges {
             x.sell(0, 0);
             price("one of them is gone", x, 3, 10, 20);
             price("another stop", x, 4, 99, 99);
+            x.wish(3, 3);
+            price("another wish", x, 3, 99, 99);
+            price("nobody's wish any more", x, 4, 0, 0);
         });
         Edge.of(39, NO_INDEX, () -> {
             SinglesPast x = Check.with("goer to 15 money 7");
@@ -141,6 +151,8 @@ final class WayEdges {
             Check.is("none", x.crowd(1), 0);
             x.sell(0, 0);
             Check.is("also who is gone", x.crowd(0), 5);
+            x.wish(1, 0);
+            Check.is("another wish", x.crowd(0), 7);
         });
         Edge.of(41, NO_INDEX, () -> Check.each(IndexOutOfBoundsException.class, s -> new SinglesPast().crowd(s), 16, -1, MOST, LEAST));
     }
@@ -311,6 +323,7 @@ final class WayEdges {
         Edge.of(45, NO_INDEX, () -> {
             SinglesPast x = Check.with("goer to 0 money 99");
             Check.each(IndexOutOfBoundsException.class, g -> x.rests(g), 1, 6, MOST, -1, LEAST);
+            Check.is("the last one, without trains", x.rests(0), 8);
         });
     }
 
@@ -336,6 +349,16 @@ final class WayEdges {
             odds("as much fear", x, 0, 10000, 10000, 10000, 10000, 10000);
             Check.law(x, "fear 99");
             odds("one less", x, 0, 10000, 9900, 9801, 9702, 9604);
+            x.nerve(0, 100);
+            Check.law(x, "fear 10 if goer > 0;fear 20 if train < 2;fear 40 if goer > 2 and train < 1");
+            odds("his own fear of his own train", x, 0, 10000, 2000, 400);
+            x.nerve(2, 50);
+            odds("another one's fear", x, 2, 10000, 8000, 6400);
+            x.stops(0, 2);
+            odds("of another train", x, 3, 10000, 7000, 4900);
+            x.stops(1, 2);
+            odds("of the next train", x, 0, 10000, 0);
+            x.stops(1, 1);
             x.sell(0, 1);
             odds("gone", x, 0, 10000, 10000, 10000, 10000, 10000);
         });
@@ -359,8 +382,20 @@ final class WayEdges {
             x.sell(2, 0);
             x.nerve(0, 0);
             Check.is("without nerve", x.brave(), 0);
+            x.nerve(0, 5);
+            Check.is("with nerve again", x.brave(), 0);
             x.sell(0, 0);
             Check.is("all gone", x.brave(), -1);
+            SinglesPast y = Check.with("goer to 0 money 99 nerve 99;goer to 0 money 99 nerve 98;goer to 0 money 99 nerve 100");
+            y.nerve(2, 98);
+            Check.is("less nerve is told", y.brave(), 0);
+            y.nerve(1, 99);
+            Check.is("more nerve is told, as much: the least", y.brave(), 0);
+            y.nerve(1, 100);
+            Check.is("more nerve is told", y.brave(), 1);
+            y.nerve(0, 97);
+            y.nerve(1, 96);
+            Check.is("to the last one yet again", y.brave(), 2);
         });
         Edge.of(47, "BRAVE; NONE.", () -> {
             Check.is("of a new one", new SinglesPast().brave(), -1);
@@ -391,6 +426,21 @@ final class WayEdges {
             x.sell(0, 0);
             x.sell(1, 0);
             Check.is("also of two gone, and of one of them", x.twins(), 3);
+            x.wish(2, 1);
+            Check.is("another wish", x.twins(), 1);
+            SinglesPast y = Check.with("thing at 5;goer to 0 money 0 does 0;goer to 0 money 0 does 0");
+            Check.is("one thing", y.twins(), 1);
+            y.deed(0, -1, true);
+            Check.is("another deed", y.twins(), 0);
+            y.deed(1, -1, true);
+            Check.is("both none", y.twins(), 1);
+            y.wish(0, 1);
+            Check.is("another wish of the first", y.twins(), 0);
+            y.wish(1, 1);
+            Check.is("and of the second", y.twins(), 1);
+            y.deed(0, 0, false);
+            y.deed(1, 0, true);
+            Check.is("one thing again", y.twins(), 1);
             Check.is("like money does not", Check.with("goer to 7 money 3;goer to 3 money 3;train seats 3 stops ab").twins(), 0);
         });
         Edge.of(52, "EMPTY: TRAINS by which nobody is GONE, as bits.", () -> {

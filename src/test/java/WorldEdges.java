@@ -45,6 +45,11 @@ final class WorldEdges {
             Check.is("the highest bit", x.world(LEAST), 0);
             Check.is("all but the highest", x.world(MOST), 3);
             Check.is("without things", new SinglesPast().world(-1), 0);
+            SinglesPast y = gone("thing at 5;thing at 6;goer to 2 money 99 does 0;goer to 2 money 99 does 1;train seats 6 stops c", 0);
+            Check.is("of one gone", y.world(1), 1);
+            Check.is("of one not gone", y.world(2), 2);
+            Check.is("of both", y.world(3), 3);
+            Check.is("of nobody", y.world(0), 0);
         });
         Edge.of(22, "THINGS by STOPS (of one STOP by numbers): a THING is so, if it is FIRST so or some THING that is so MAKES it,"
                 + " and none that is so HINDERS it", () -> {
@@ -163,6 +168,9 @@ final class WorldEdges {
             Check.is("none agrees", x.past(), -1);
             Check.is("of nobody", x.now(), 1);
             Check.is("of a new one", new SinglesPast().now(), 0);
+            SinglesPast y = gone("thing at 5 so;thing at 6;goer to 2 money 99 undoes 0;goer to 2 money 99 does 1 born 0;train seats 6 stops c", 0, 1);
+            Check.is("one is gone, but not of the past", y.past(), 1);
+            Check.is("he does nothing in it", y.now(), 0);
         });
         Edge.of(49, "UNBORN: GOERS BORN of a THING that is not so NOW, as bits.", () -> {
             SinglesPast x = Check.with("thing at 5;thing at 6 so;goer to 2 money 99 born 0;goer to 2 money 99 born 1;goer to 2 money 99;"
@@ -170,6 +178,8 @@ final class WorldEdges {
             Check.is("not gone, too", x.unborn(), 1);
             x.sell(3, 0);
             Check.is("it is so now", x.unborn(), 0);
+            SinglesPast y = gone("thing at 5 so;goer to 2 money 99 undoes 0;goer to 2 money 99 born 0;goer to 2 money 99 born 0;train seats 6 stops c", 0, 1);
+            Check.is("gone, too", y.unborn(), 6);
             Check.is("of a new one", new SinglesPast().unborn(), 0);
         });
         Edge.of(51, "WORTH of NOW: that of all THINGS that are so, together.", () -> {
@@ -273,6 +283,12 @@ final class WorldEdges {
             Check.is("it cannot be so", send(y, 0, 1), -1);
             y.sell(2, 0);
             Check.is("now it is so already", send(y, 0, 0), 0);
+            SinglesPast z = gone("thing at 5 so;thing at 6;goer to 2 money 99 undoes 0;goer to 2 money 99 does 1 born 0;goer to 2 money 99 does 1;"
+                    + "train seats 6 stops c", 0);
+            Check.is("sent, but not of the past: another one", send(z, 1, 1), 4);
+            z.deed(2, -1, true);
+            Check.is("sent, but not of the past: none", send(z, 1, 1), -1);
+            Check.is("as it is", send(z, 1, 0, 0, 0), 0);
             Check.is("who is gone cannot be sent, nor called back", send(y, 0, 1), -1);
         });
         Edge.of(30, "Uses the TAPE up: SEND (of each two bytes: the THING, 1 or 0; at most 40 bytes), as bits; NONE.", () -> {
@@ -368,6 +384,9 @@ final class WorldEdges {
             Check.is("one set without goers", look(Check.with("thing at 5")), -1);
             Check.is("two sets, one world: the least", look(Check.with("thing at 5;thing at 5;goer to 1 money 1")), 0);
             Check.is("two sets, no thing", look(Check.with("goer to 1 money 1")), -1);
+            SinglesPast y = gone("thing at 5;thing at 6;goer to 2 money 99 does 0;goer to 2 money 99 does 1;train seats 6 stops c", 0, 1);
+            Check.is("gone or not", look(y), 0);
+            Check.is("gone or not, of two", look(y, 0, 1), 1);
             Check.is("64 sets, one world", look(Check.with("thing at 5;" + "goer to 1 money 1;".repeat(5) + "goer to 1 money 1")), 0);
         });
         Edge.of(32, "Uses the TAPE up: LOOK (the TAPE likewise); NONE.", () -> {
@@ -410,6 +429,26 @@ final class WorldEdges {
             Check.is("he is not born", y.now(), 0);
             Check.is("if it was first so, there is no past: of nobody", y.hangs(0), 1);
             Check.is("nothing stays", y.thing(0, 1), 0);
+            String two = "thing at 5;thing at 6 so;goer to 2 money 99 undoes 0;goer to 2 money 99 does 1;train seats 6 stops c";
+            SinglesPast z = Check.with(two);
+            Check.is("who is not gone undoes nothing", z.hangs(0), 1);
+            Check.is("nor makes anything", z.hangs(1), 2);
+            z = gone(two, 0);
+            Check.is("who is gone does", z.hangs(0), 0);
+            Check.is("the other one yet makes nothing", z.hangs(1), 2);
+            z = gone(two, 1);
+            Check.is("the first yet undoes nothing", z.hangs(0), 1);
+            Check.is("the other one makes it anyway", z.hangs(1), 0);
+            SinglesPast told = Check.with("thing at 5;goer to 9 money 99;train seats 6 stops ck");
+            told.wish(0, 2);
+            told.deed(0, 0, false);
+            told.sell(0, 0);
+            Check.is("a wish and a deed are told, and he is gone", told.hangs(0), 0);
+            told.recall(0);
+            Check.is("he is called back", told.hangs(0), 1);
+            told.wish(0, 10);
+            told.sell(0, 0);
+            Check.is("he is gone too late", told.hangs(0), 1);
         });
         Edge.of(33, NO_INDEX, () -> {
             SinglesPast x = Check.with("thing at 5;thing at 6");
