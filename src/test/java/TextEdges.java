@@ -261,6 +261,11 @@ final class TextEdges {
             wrong(x, "^dawn");
             Check.law(x, "bar");
             Check.is("a right law", x.fault(), -1);
+            SinglesPast y = twelve();
+            wrong(y, "day 7;^dawn");
+            Check.tape(y, "day 7");
+            Check.fails("a right text that is one too many", UnsupportedOperationException.class, y::station);
+            Check.is("it was read, and is right", y.fault(), -1);
         });
     }
 
