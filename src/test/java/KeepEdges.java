@@ -138,6 +138,12 @@ final class KeepEdges {
         void on(SinglesPast x);
     }
 
+    private static SinglesPast oneSold() {
+        SinglesPast x = Check.with(SMALL, "cost 3");
+        x.sell(2, 1);
+        return x;
+    }
+
     private static void undo() {
         Edge.of(60, "UNDONE: the latest ACT not undone yet (12 are remembered; DAYS of one call are one)", () -> {
             SinglesPast x = Check.with(SMALL);
@@ -169,16 +175,19 @@ final class KeepEdges {
             Act[] acts = {x -> x.days(3), x -> x.sell(1, 1), x -> x.pay(0, 5), x -> x.nerve(0, 3), x -> x.wish(0, 0), x -> x.deed(0, 1, false),
                 x -> x.deed(0, -1, false), x -> x.quarrel(0, 1, true), x -> x.quarrel(0, 1, false), x -> x.stops(0, 1), x -> x.recall(2)};
             for (int i = 0; i < acts.length; i++) {
-                SinglesPast x = Check.with(SMALL, "cost 3");
-                x.sell(2, 1);
+                SinglesPast x = oneSold();
                 String before = Seen.of(x);
-                String answers = Seen.answers(x);
                 acts[i].on(x);
                 Check.is("acts by " + i, x.count(9), 2);
                 Check.is("something is otherwise by " + i, Seen.of(x).equals(before), false);
                 Check.is("undone " + i, x.undo(), true);
                 Check.is("as ahead of " + i, Seen.of(x), before);
-                Check.is("answers as ahead of " + i, Seen.answers(x), answers);
+                // Another one: both together would ask one object too often.
+                SinglesPast y = oneSold();
+                String answers = Seen.answers(y);
+                acts[i].on(y);
+                Check.is("undone again " + i, y.undo(), true);
+                Check.is("answers as ahead of " + i, Seen.answers(y), answers);
             }
             SinglesPast x = Check.with(SMALL);
             x.pay(0, 1);

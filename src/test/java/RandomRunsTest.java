@@ -83,6 +83,11 @@ public final class RandomRunsTest {
     }
 
     private void read(String text, String name) throws Exception {
+        // What an object answers behind its last promised call is free: a text that does not fit any more stays untold.
+        boolean fits = calls + (text.length() + 19) / 20 + 3 <= CALLS_MOST;
+        if (!fits) {
+            return;
+        }
         StringBuilder padded = new StringBuilder(text);
         while (padded.length() % 20 != 0) {
             padded.append('\0');
