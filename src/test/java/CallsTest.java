@@ -1,6 +1,9 @@
 import java.io.IOException;
 import java.io.OutputStream;
 import java.io.PrintStream;
+import java.lang.reflect.Field;
+import java.lang.reflect.Method;
+import java.lang.reflect.Modifier;
 import java.net.URL;
 import java.net.URLClassLoader;
 import java.nio.file.Files;
@@ -37,21 +40,39 @@ public final class CallsTest {
         Check.end();
     }
 
-    private static String countingCalls(String source) {
-        String counting = "$1 if (++calls == 513) { new Throwable(\"the 513th call\").printStackTrace(); } mostCalls = Math.max(mostCalls, calls);";
-        return source.replaceAll("(?m)^(    public (?:int|boolean|void) \\w+\\(.*\\{)$", counting)
-                .replaceFirst("public final class SinglesPast \\{", "$0 int calls; static int mostCalls;");
+    /** The face alone: it counts, and the class itself, under another name, answers. */
+    private static String countingFace() {
+        StringBuilder s = new StringBuilder("public final class SinglesPast { public static final int NONE = -1; static int mostCalls; int calls;\n"
+                + "final Answering x = new Answering();\n"
+                + "void count() { calls++; mostCalls = Math.max(mostCalls, calls);\n"
+                + "if (calls == 513) { new Throwable(\"the 513th call\").printStackTrace(); } }\n");
+        for (Method call : SinglesPast.class.getDeclaredMethods()) {
+            if (Modifier.isPublic(call.getModifiers())) {
+                List<String> told = new ArrayList<>();
+                List<String> passed = new ArrayList<>();
+                for (Class<?> type : call.getParameterTypes()) {
+                    passed.add("p" + passed.size());
+                    told.add(type + " p" + told.size());
+                }
+                s.append("public ").append(call.getReturnType()).append(' ').append(call.getName()).append('(').append(String.join(", ", told))
+                        .append(") { count(); ").append(call.getReturnType() == void.class ? "" : "return ").append("x.").append(call.getName())
+                        .append('(').append(String.join(", ", passed)).append("); }\n");
+            }
+        }
+        return s.append("}\n").toString();
     }
 
     private static void compile(Path work) throws IOException {
-        Path copy = work.resolve("SinglesPast.java");
-        Files.writeString(copy, countingCalls(Files.readString(SOURCE)));
-        List<String> words = new ArrayList<>(List.of("-d", work.toString(), copy.toString()));
+        Path face = work.resolve("SinglesPast.java");
+        Files.writeString(face, countingFace());
+        Path answering = work.resolve("Answering.java");
+        Files.writeString(answering, Files.readString(SOURCE).replaceAll("\\bSinglesPast\\b", "Answering"));
+        List<String> words = new ArrayList<>(List.of("-d", work.toString(), face.toString(), answering.toString()));
         try (Stream<Path> files = Files.list(TESTS)) {
             files.forEach(file -> words.add(file.toString()));
         }
         int failed = ToolProvider.getSystemJavaCompiler().run(null, null, null, words.toArray(new String[0]));
-        Check.is("the counting copy does not compile", failed, 0);
+        Check.is("compiling the counting face", failed, 0);
     }
 
     private static List<String> tests() throws IOException {
@@ -73,7 +94,7 @@ public final class CallsTest {
     }
 
     private static int most(ClassLoader loader) throws Exception {
-        java.lang.reflect.Field most = loader.loadClass("SinglesPast").getDeclaredField("mostCalls");
+        Field most = loader.loadClass("SinglesPast").getDeclaredField("mostCalls");
         most.setAccessible(true);
         return most.getInt(null);
     }
